@@ -111,8 +111,19 @@ public final class ModelTest {
       return pick(3) > 0 ? pick(4) : 8 + 8 * pick(4) + pick(3);
     }
 
+    /** Mostly the number of a document that there is. */
     int document() {
-      return pick(20) == 0 ? wild() : pick(style == 4 ? 70 : 9);
+      List<Integer> all = new ArrayList<>(model.all().keySet());
+      return pick(20) == 0 || all.isEmpty() ? wild() : all.get(pick(all.size()));
+    }
+
+    /** Mostly a number that is free. */
+    int free() {
+      int number = pick(30) == 0 ? wild() : pick(style == 4 ? 100 : 30);
+      for (int i = 0; i < 100 && model.get(number) != null && pick(30) > 0; i++) {
+        number = pick(100);
+      }
+      return number;
     }
 
     int router() {
@@ -152,15 +163,29 @@ public final class ModelTest {
         call("number", pick(10) == 0 ? -pick(50) : pick(1000));
         call("give", 0);
       }
-      for (int i = style == 4 ? pick(2) : pick(4); i > 0; i--) {
-        value(1);
-        call("give", pick(4));
+      if (style == 2) {
+        for (int field = 1; field < 3; field++) {
+          call(pick(6) == 0 ? "word" : "number", pick(3));
+          call("give", field);
+        }
       }
-      call("insert", router(), document());
+      for (int i = style == 4 ? 0 : pick(style == 2 ? 2 : 4); i > 0; i--) {
+        value(1);
+        call("give", style == 2 ? 3 : pick(4));
+      }
+      call("insert", router(), free());
+      if (pick(5) == 0) {
+        call("drop");
+      }
     }
 
     void update() throws Exception {
       int operator = pick(40) == 0 ? wild() : pick(6);
+      if (style == 2 && pick(4) > 0) {
+        call("number", pick(3));
+        call("update", router(), document(), 1 + pick(2), 0);
+        return;
+      }
       if (operator != 1 && pick(20) > 0) {
         if (operator == 2 || operator == 5 && pick(8) > 0) {
           call("number", pick(6) == 0 ? pick(1999) - 999 : pick(7) - 3);
@@ -176,7 +201,24 @@ public final class ModelTest {
       }
     }
 
+    /** Queries of few shapes, so that the plans for them are used again and again. */
+    void plainQuery() throws Exception {
+      call("clear");
+      int shape = pick(4);
+      for (int field = 1; field < 3; field++) {
+        if (shape > 0 || field == 1) {
+          call(pick(9) == 0 ? "word" : "number", pick(3));
+          call("filter", shape == 3 ? 3 - field : field, shape == 2 ? field - 1 : 0);
+        }
+      }
+      look();
+    }
+
     void query() throws Exception {
+      if (style == 2 && pick(4) > 0) {
+        plainQuery();
+        return;
+      }
       if (pick(2) == 0) {
         call("clear");
       }
@@ -196,13 +238,17 @@ public final class ModelTest {
       call("find", router());
       call("findAnew");
       for (int what = 0; what < 5; what++) {
-        call("plan", what);
+        if (what < 2 || pick(3) == 0) {
+          call("plan", what);
+        }
       }
-      call("found", pick(4));
-      if (pick(2) == 0) {
+      if (pick(4) == 0) {
+        call("found", pick(1 + model.found.size()));
+      }
+      if (pick(3) == 0) {
         call("group", path(), path());
-        for (int place = 0; place < 6; place++) {
-          call("grouped", place, pick(3));
+        for (int i = pick(4); i > 0; i--) {
+          call("grouped", pick(1 + model.groups.size()), pick(3));
         }
       }
     }
@@ -224,7 +270,7 @@ public final class ModelTest {
     void tell() throws Exception {
       switch (pick(9)) {
         case 0: call("document", document(), pick(3)); break;
-        case 1: call("print", document()); break;
+        case 1: call("print", document()); call("print", document()); break;
         case 2: call("entries", pick(3)); call("entriesAnew", pick(3)); break;
         case 3: call("chunk", pick(7), pick(4)); break;
         case 4: call("shard", pick(3), pick(3)); break;
@@ -248,11 +294,11 @@ public final class ModelTest {
 
     void step() throws Exception {
       int[][] weights = {
-        {20, 20, 10, 10, 10, 3, 2, 6, 2},
-        {20, 30, 3, 20, 10, 2, 1, 2, 2},
-        {20, 10, 25, 3, 6, 6, 1, 1, 1},
-        {10, 40, 3, 3, 15, 2, 1, 2, 1},
-        {60, 6, 2, 5, 5, 1, 1, 1, 1},
+        {16, 20, 6, 10, 10, 3, 2, 6, 2},
+        {14, 25, 1, 30, 10, 1, 1, 1, 2},
+        {22, 14, 14, 0, 3, 5, 1, 1, 1},
+        {8, 40, 3, 3, 15, 2, 1, 4, 1},
+        {90, 3, 1, 5, 3, 1, 1, 1, 1},
         {25, 8, 4, 4, 10, 2, 6, 5, 8}};
       int[] weight = weights[style];
       int sum = 0;
@@ -270,9 +316,9 @@ public final class ModelTest {
         case 2: query(); break;
         case 3: shards(); break;
         case 4: tell(); break;
-        case 5: if (pick(3) > 0) call("index", path(), pick(2) == 0); else call("dropIndex", pick(3)); break;
-        case 6: if (pick(2) == 0) call("expire", pick(5) - 1); else call("tick", 1 + pick(20)); break;
-        case 7: if (pick(3) == 0) call("rule", pick(4), pick(5)); else call("remove", router(), document()); break;
+        case 5: if (pick(3) > 0) call("index", style == 2 ? 1 + pick(3) : path(), pick(2) == 0); else call("dropIndex", pick(3)); break;
+        case 6: if (pick(2) == 0) call("expire", pick(2) * pick(5) - 1); else call("tick", 1 + pick(pick(20) + 1)); break;
+        case 7: if (pick(3) == 0) call("rule", pick(4), pick(2) * pick(5)); else call("remove", router(), document()); break;
         default: anything(); break;
       }
     }
