@@ -539,6 +539,8 @@ public final class PromiseTest {
     refusesUpdate(fieldsOnly, 25, 0, fieldsOnly);
     refusesUpdate(fieldsOnly, 25, 3, fieldsOnly);
     refusesUpdate(fieldsOnly, 25, 2, "1");
+    refusesUpdate("{0:" + eight + "}", 25, 0, fieldsOnly);
+    refusesUpdate("{0:" + eight + "}", 25, 3, fieldsOnly);
     updates(fieldsOnly, 3, 0, "{3:{1:{},2:{}},4:{}}", "{0:" + eight + ",1:" + eight + ",3:{3:{1:{},2:{}},4:{}}}");
     refusesUpdate(fieldsOnly, 3, 0, "{3:{1:{},2:{}},4:{},5:{}}");
   }

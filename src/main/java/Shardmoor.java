@@ -5,6 +5,7 @@ public final class Shardmoor {
   private static final int WORDS = 100;
   private static final int FIELDS = 8;
   private static final int PATHS = 72;
+  private static final int MOST_PILED = 10;
   private static final int MOST_PARTS = 24;
 
   /** Each part is one sign, has one more if it ends with END, and one more if it stands behind a field. */
@@ -775,7 +776,7 @@ public final class Shardmoor {
 
   /** The pile of the values that are told. */
   private static final class Pile {
-    private final Value[] values = new Value[10];
+    private final Value[] values = new Value[MOST_PILED];
     private final Value none = new Value(0);
     private int size = 0;
 
