@@ -1,832 +1,710 @@
-import java.util.ArrayList;
-import java.util.List;
+/**
+ * Each promise of ../shared/DOC.md, sentence by sentence: what a call does and returns, its arguments at their bounds and
+ * beyond, and each reason for which it throws. With the document at hand it is checked that no sentence is left out.
+ */
+public final class PromiseTest extends Kit {
 
-/** Each promise of ../shared/DOC.md, by its number: ordinary inputs, edges, and wrong inputs. */
-public final class PromiseTest {
-  private static final Class<? extends RuntimeException> ARGUMENT = IllegalArgumentException.class;
-  private static final Class<? extends RuntimeException> STATE = IllegalStateException.class;
-  private static final Class<? extends RuntimeException> BOUNDS = IndexOutOfBoundsException.class;
-  private static final int[] FAR = {Integer.MIN_VALUE, Integer.MAX_VALUE};
-
-  private static int wrong = 0;
-  private static int checks = 0;
-
-  interface Call {
-    long on(Shardmoor x);
-  }
-
-  static void due(String what, long got, long want) {
-    checks++;
-    if (got != want) {
-      wrong++;
-      System.out.println(what + " answered " + got + ", due is " + want);
-    }
-  }
-
-  static Object answer(Shardmoor x, Call call) {
-    try {
-      return call.on(x);
-    } catch (RuntimeException e) {
-      return e.getClass();
-    }
-  }
-
-  static void throwsBy(String what, Shardmoor x, Class<? extends RuntimeException> kind, Call call) {
-    checks++;
-    Object got = answer(x, call);
-    if (got != kind) {
-      wrong++;
-      System.out.println(what + " answered " + got + ", due is " + kind);
-    }
-  }
-
-  // ---- values as texts: _ nothing, 5 a number, w5 a word, [1,2] a row, {0:1,3:[]} an object
-
-  static void tell(Shardmoor x, String text) {
-    int end = tellAt(x, text, 0);
-    if (end != text.length()) {
-      throw new IllegalStateException("the test's value is wrong: " + text);
-    }
-  }
-
-  private static int tellAt(Shardmoor x, String text, int at) {
-    char c = text.charAt(at);
-    if (c == '_') {
-      x.nothing();
-      return at + 1;
-    }
-    if (c == '[' || c == '{') {
-      if (c == '[') {
-        x.row();
-      } else {
-        x.object();
-      }
-      int i = at + 1;
-      while (text.charAt(i) != ']' && text.charAt(i) != '}') {
-        if (c == '[') {
-          i = tellAt(x, text, i);
-          x.add();
-        } else {
-          int field = text.charAt(i) - '0';
-          i = tellAt(x, text, i + 2);
-          x.give(field);
-        }
-        i += text.charAt(i) == ',' ? 1 : 0;
-      }
-      return i + 1;
-    }
-    int i = c == 'w' ? at + 1 : at;
-    int end = i + 1;
-    while (end < text.length() && Character.isDigit(text.charAt(end))) {
-      end++;
-    }
-    int number = Integer.parseInt(text.substring(i, end));
-    if (c == 'w') {
-      x.word(number);
-    } else {
-      x.number(number);
-    }
-    return end;
-  }
-
-  /** The numbers that make the print of a value, in order. */
-  private static int printAt(String text, int at, List<Integer> out) {
-    char c = text.charAt(at);
-    if (c == '_') {
-      out.add(1);
-      return at + 1;
-    }
-    if (c == '[' || c == '{') {
-      out.add(c == '[' ? 4 : 5);
-      int place = out.size();
-      out.add(0);
-      int many = 0;
-      int i = at + 1;
-      while (text.charAt(i) != ']' && text.charAt(i) != '}') {
-        many++;
-        if (c == '{') {
-          out.add(text.charAt(i) - '0');
-          i += 2;
-        }
-        i = printAt(text, i, out);
-        i += text.charAt(i) == ',' ? 1 : 0;
-      }
-      out.set(place, many);
-      return i + 1;
-    }
-    int i = c == 'w' ? at + 1 : at;
-    int end = i + 1;
-    while (end < text.length() && Character.isDigit(text.charAt(end))) {
-      end++;
-    }
-    out.add(c == 'w' ? 3 : 2);
-    out.add(Integer.parseInt(text.substring(i, end)));
-    return end;
-  }
-
-  static long printOf(String text) {
-    List<Integer> numbers = new ArrayList<>();
-    printAt(text, 0, numbers);
-    long print = 7;
-    for (int number : numbers) {
-      print = 31 * print + number;
-    }
-    return print;
-  }
-
-  static int insert(Shardmoor x, int number, String document) {
-    tell(x, document);
-    return x.insert(0, number);
-  }
-
-  static Shardmoor with(String... documents) {
-    Shardmoor x = new Shardmoor();
-    for (int i = 0; i < documents.length; i++) {
-      insert(x, i, documents[i]);
-    }
-    return x;
-  }
-
-  static void filter(Shardmoor x, int path, int relation, String value) {
-    tell(x, value);
-    x.filter(path, relation);
-  }
-
-  /** Which documents of these a single filter finds, as a text like "0 2". */
-  static String fitting(int path, int relation, String value, String... documents) {
-    Shardmoor x = with(documents);
-    filter(x, path, relation, value);
-    int many = x.find(0);
-    due("findAnew", x.findAnew(), many);
-    StringBuilder found = new StringBuilder();
-    for (int i = 0; i < many; i++) {
-      found.append(i > 0 ? " " : "").append(x.found(i));
-    }
-    return found.toString();
-  }
-
-  static void dueText(String what, String got, String want) {
-    checks++;
-    if (!got.equals(want)) {
-      wrong++;
-      System.out.println(what + " answered " + got + ", due is " + want);
-    }
-  }
-
-  // ---- a state with something of everything, and all that can be seen of it
-
-  static Shardmoor rich() {
-    Shardmoor x = new Shardmoor();
-    insert(x, 3, "{0:50,1:[1,2],2:{1:4,2:w3}}");
-    insert(x, 4, "{0:150,1:[1],2:{1:4},7:_}");
-    insert(x, 5, "{0:400,1:[990,w1],3:w5}");
-    insert(x, 6, "{0:900,1:[],3:9}");
-    insert(x, 7, "{0:120,1:[{0:1},{0:1,1:[2]}]}");
-    x.rule(1, 3);
-    x.index(1, true);
-    x.index(17 + 8, false);
-    filter(x, 1, 0, "1");
-    filter(x, 1, 3, "_");
-    x.find(1);
-    x.group(1, 0);
-    x.split(0, 100);
-    x.move(1, 2);
-    x.copy(1);
-    x.expire(7);
-    x.tick(3);
-    tell(x, "[5]");
-    tell(x, "{4:1,1:[]}");
-    return x;
-  }
-
-  static String seen(Shardmoor x) {
-    List<Call> calls = new ArrayList<>();
-    calls.add(y -> y.documents());
-    for (int n = 2; n <= 8; n++) {
-      int number = n;
-      calls.add(y -> y.document(number, 0));
-      calls.add(y -> y.document(number, 1));
-      calls.add(y -> y.print(number));
-    }
-    for (int i = 0; i < 3; i++) {
-      int place = i;
-      calls.add(y -> y.entries(place));
-      calls.add(y -> y.entriesAnew(place));
-      calls.add(y -> y.found(place));
-      for (int w = 0; w < 3; w++) {
-        int what = w;
-        calls.add(y -> y.grouped(place, what));
-        calls.add(y -> y.shard(place, what));
-        calls.add(y -> y.router(place, what));
-      }
-    }
-    for (int c = 0; c < 5; c++) {
-      int place = c;
-      calls.add(y -> y.plan(place));
-      for (int w = 0; w < 4; w++) {
-        int what = w;
-        calls.add(y -> y.chunk(place, what));
-      }
-    }
-    for (int t = 1; t < 9; t++) {
-      int time = t;
-      calls.add(y -> y.next(time - 1));
-      calls.add(y -> y.change(time, 0));
-      calls.add(y -> y.change(time, 1));
-    }
-    calls.add(y -> y.findAnew());
-    calls.add(y -> y.now());
-    calls.add(y -> y.copy(1));
-    calls.add(y -> y.expire(-1));
-    calls.add(y -> y.clear());
-    for (int f = 0; f < 8; f++) {
-      int field = f;
-      calls.add(y -> y.rule(field, 0));
-    }
-    calls.add(y -> y.insert(0, 98));
-    calls.add(y -> y.print(98));
-    calls.add(y -> y.drop());
-    StringBuilder all = new StringBuilder();
-    for (Call call : calls) {
-      all.append(answer(x, call)).append(' ');
-    }
-    return all.toString();
-  }
-
-  private static final String UNTOUCHED = seen(rich());
-
-  /** A call on the rich state throws, and all is as before. */
-  static void refuses(String what, Class<? extends RuntimeException> kind, Call call) {
-    Shardmoor x = rich();
-    throwsBy(what, x, kind, call);
-    dueText("what is seen after " + what, seen(x), UNTOUCHED);
-  }
-
-  static Shardmoor fullPile() {
-    Shardmoor x = new Shardmoor();
-    for (int i = 0; i < 10; i++) {
-      x.row();
-    }
-    return x;
-  }
+  // ---- the pile
 
   static void promise1() {
+    section("Promise 1");
+    says("No documents, rules and indexes");
     Shardmoor x = new Shardmoor();
     due("documents", x.documents(), 0);
-    due("now", x.now(), 0);
-    due("next", x.next(0), -1);
-    throwsBy("entries", x, BOUNDS, y -> y.entries(0));
+    for (int number = 0; number < 100; number++) {
+      due("document", x.document(number, 0), -1);
+    }
     for (int field = 0; field < 8; field++) {
       due("rule", x.rule(field, 0), 0);
     }
-    due("drop", x.drop(), 0);
-    due("clear", x.clear(), 0);
-    due("expire", x.expire(-1), -1);
-    for (int shard = 0; shard < 3; shard++) {
-      due("first key", x.chunk(shard, 0), shard == 0 ? 0 : shard == 1 ? 334 : 667);
-      due("chunk's shard", x.chunk(shard, 1), shard);
-      for (int what = 0; what < 3; what++) {
-        due("shard", x.shard(shard, what), 0);
-      }
+    for (int index = 0; index < 3; index++) {
+      int place = index;
+      throwsBy("entries", x, BOUNDS, y -> y.entries(place));
     }
-    throwsBy("chunk 3", x, BOUNDS, y -> y.chunk(3, 0));
+    due("pile", x.drop(), 0);
+    due("filters", x.clear(), 0);
+    due("expiring field", x.expire(-1), -1);
+    due("now", x.now(), 0);
+    due("entries of the stream", x.next(FAR[0]), -1);
+    duePlan("no query yet", x, -1, 0, 0, 0, 0);
+    throwsBy("found", x, BOUNDS, y -> y.found(0));
+    throwsBy("grouped", x, BOUNDS, y -> y.grouped(0, 0));
+    dueShards("at first", x, 0, 0, 0, 0, 0, 0, 0, 0, 0);
+    throwsBy("no move", x, STATE, y -> y.giveUp());
+    says("the field 0 as key, not hashed.");
     insert(x, 0, "{0:7,1:8}");
-    due("the key is field 0, not hashed", x.document(0, 1), 7);
+    due("key", x.document(0, 1), 7);
+  }
+
+  /** A call that puts a value on the pile. */
+  private static void puts(String sentence, String value, Call put) {
+    says(sentence);
+    Shardmoor x = new Shardmoor();
+    x.object();
+    x.object();
+    put.on(x);
+    due("give", x.give(5), 2);
+    due("give", x.give(0), 1);
+    x.insert(0, 1);
+    due("print", x.print(1), printOf("{0:{5:" + value + "}}"));
+    says("Returns how many values it has then.");
+    for (int i = 1; i <= 10; i++) {
+      due("values", put.on(x), i);
+    }
+    due("values", x.drop(), 10);
+    due("values", put.on(x), 1);
+    says("Throws IllegalStateException if it has 10");
+    for (int i = 2; i <= 10; i++) {
+      due("values", answer(x, put).equals((long) i), true);
+    }
+    throwsBy("an eleventh", x, STATE, put);
+    refuses("an eleventh", STATE, Kit::fullPile, put);
+    refuses("an eleventh", STATE, FULL, put);
   }
 
   static void promises2To6() {
-    Shardmoor x = new Shardmoor();
-    due("nothing", x.nothing(), 1);
-    due("number", x.number(-999), 2);
-    due("number", x.number(999), 3);
-    due("word", x.word(0), 4);
-    due("word", x.word(99), 5);
-    due("row", x.row(), 6);
-    due("object", x.object(), 7);
-    due("drop", x.drop(), 7);
-    throwsBy("nothing", fullPile(), STATE, y -> y.nothing());
-    throwsBy("number", fullPile(), STATE, y -> y.number(1));
-    throwsBy("number", fullPile(), ARGUMENT, y -> y.number(1000));
-    throwsBy("word", fullPile(), STATE, y -> y.word(1));
-    throwsBy("word", fullPile(), ARGUMENT, y -> y.word(100));
-    throwsBy("row", fullPile(), STATE, y -> y.row());
-    throwsBy("object", fullPile(), STATE, y -> y.object());
-    for (int number : new int[] {-1000, 1000, FAR[0], FAR[1]}) {
-      refuses("number", ARGUMENT, y -> y.number(number));
+    section("Promise 2");
+    puts("Puts nothing, as a value, on the pile.", "_", x -> x.nothing());
+    section("Promise 3");
+    for (int number : new int[] {-999, -1, 0, 1, 999}) {
+      puts("Puts a number on the pile.", "" + number, x -> x.number(number));
     }
-    for (int word : new int[] {-1, 100, FAR[0], FAR[1]}) {
-      refuses("word", ARGUMENT, y -> y.word(word));
+    says("- number: -999 to 999");
+    range(-999, 999, ARGUMENT, (x, number) -> x.number(number), ALL);
+    says("Throws IllegalArgumentException if number is out of range");
+    range(-999, 999, ARGUMENT, (x, number) -> x.number(number), Kit::fullPile);
+    section("Promise 4");
+    for (int word : new int[] {0, 1, 98, 99}) {
+      puts("Puts a word on the pile.", "w" + word, x -> x.word(word));
     }
-    Shardmoor full = fullPile();
-    throwsBy("nothing", full, STATE, y -> y.nothing());
-    due("the pile is as before", full.drop(), 10);
-    for (String value : new String[] {"_", "-999", "0", "999", "w0", "w99", "[]", "{}"}) {
-      Shardmoor y = with("{5:" + value + "}");
-      due("print with " + value, y.print(0), printOf("{5:" + value + "}"));
-    }
+    says("- word: 0 to 99");
+    range(0, 99, ARGUMENT, (x, word) -> x.word(word), ALL);
+    says("Throws IllegalArgumentException if word is out of range");
+    range(0, 99, ARGUMENT, (x, word) -> x.word(word), Kit::fullPile);
+    section("Promise 5");
+    puts("Puts an empty row on the pile.", "[]", x -> x.row());
+    section("Promise 6");
+    puts("Puts an empty object on the pile.", "{}", x -> x.object());
+  }
+
+  /** The values of a pile, from the lowest. */
+  private static Maker pile(String... values) {
+    return () -> {
+      Shardmoor x = new Shardmoor();
+      for (String value : values) {
+        tell(x, value);
+      }
+      return x;
+    };
   }
 
   static void promise7() {
-    Shardmoor x = new Shardmoor();
-    x.row();
-    x.number(3);
-    due("add", x.add(), 1);
-    tell(x, "[w1,[_]]");
-    due("add", x.add(), 1);
-    tell(x, "{1:[3,[w1,[_]]]}");
-    x.insert(0, 7);
-    due("what was put together", x.print(7), printOf("{1:[3,[w1,[_]]]}"));
-    throwsBy("one value", with(), STATE, y -> {
-      y.row();
-      return y.add();
-    });
-    throwsBy("no value", with(), STATE, y -> y.add());
-    Shardmoor full = new Shardmoor();
-    full.row();
-    for (int i = 0; i < 23; i++) {
-      full.number(i);
-      due("add", full.add(), 1);
+    section("Promise 7");
+    says("Takes the top value, and puts it behind the row below it.");
+    for (String value : new String[] {"_", "-999", "w99", "[]", "[1,[2]]", "{}", "{0:[1],7:{}}"}) {
+      for (String before : new String[] {"[]", "[1]", "[[],{}]"}) {
+        Shardmoor x = pile("{}", before, value).make();
+        x.add();
+        x.give(3);
+        x.insert(0, 0);
+        String after = before.substring(0, before.length() - 1) + (before.length() > 2 ? "," : "") + value + "]";
+        due(value + " behind " + before, x.print(0), printOf("{3:" + after + "}"));
+        due("nothing is left", x.drop(), 0);
+      }
     }
-    full.number(9);
-    throwsBy("a 25th part", full, STATE, y -> y.add());
-    due("both are there", full.drop(), 2);
-    full.row();
-    for (int i = 0; i < 21; i++) {
-      full.number(i);
-      full.add();
+    says("Returns how many values the pile has then.");
+    due("of two", pile("[]", "1").make().add(), 1);
+    due("of three", pile("_", "[]", "1").make().add(), 2);
+    due("of ten", fullPile().add(), 9);
+    Shardmoor rows = fullPile();
+    for (int left = 9; left >= 1; left--) {
+      due("a row in a row", rows.add(), left);
     }
-    tell(full, "[1,2]");
-    throwsBy("25 parts in all", full, STATE, y -> y.add());
-    full.drop();
-    for (String lower : new String[] {"_", "1", "w1", "{}"}) {
-      tell(full, lower);
-      full.number(1);
-      throwsBy("to " + lower, full, STATE, y -> y.add());
-      due("both are there", full.drop(), 2);
+    says("Throws IllegalStateException if there are not two, the lower one is no row, or it would have more than 24"
+        + " parts");
+    refuses("an empty pile", STATE, FRESH, x -> x.add());
+    refuses("one value", STATE, pile("[]"), x -> x.add());
+    for (String lower : new String[] {"_", "1", "w1", "{}", "{0:[]}"}) {
+      refuses("behind " + lower, STATE, pile("[]", lower, "[]"), x -> x.add());
     }
+    due("24 parts", pile(row(1, 22, ""), "1").make().add(), 1);
+    refuses("25 parts", STATE, pile(row(1, 23, ""), "1"), x -> x.add());
+    due("24 parts", pile("[]", row(1, 22, "")).make().add(), 1);
+    refuses("25 parts", STATE, pile("[]", row(1, 23, "")), x -> x.add());
+    due("24 parts", pile(row(1, 11, ""), row(1, 11, "")).make().add(), 1);
+    refuses("25 parts", STATE, pile(row(1, 11, ""), row(1, 12, "")), x -> x.add());
+    refuses("25 parts", STATE, pile(row(1, 12, ""), row(1, 11, "")), x -> x.add());
+    refuses("48 parts", STATE, pile(row(1, 23, ""), row(1, 23, "")), x -> x.add());
   }
 
   static void promise8() {
+    section("Promise 8");
+    says("Takes the top value, and gives it to a field of the object below it, in place of one that is there.");
+    for (int field = 0; field < 8; field++) {
+      for (String value : new String[] {"_", "-999", "w99", "[1,[2]]", "{}", "{0:[1],7:{}}"}) {
+        for (String there : new String[] {"", "1", "[]", "{" + field + ":5}"}) {
+          String before = there.isEmpty() ? "{}" : "{" + field + ":" + there + "}";
+          Shardmoor x = pile(before, value).make();
+          due("give", x.give(field), 1);
+          x.insert(0, 0);
+          due(value + " for " + field + " of " + before, x.print(0), printOf("{" + field + ":" + value + "}"));
+        }
+      }
+    }
     Shardmoor x = new Shardmoor();
     x.object();
-    x.number(1);
-    due("give", x.give(7), 1);
-    x.number(2);
-    due("give", x.give(0), 1);
-    tell(x, "[3,4]");
-    due("give in place", x.give(7), 1);
-    x.insert(0, 1);
-    due("print", x.print(1), printOf("{0:2,7:[3,4]}"));
-    for (int field : new int[] {-1, 8, FAR[0], FAR[1]}) {
-      refuses("give", ARGUMENT, y -> y.give(field));
+    for (int field : new int[] {3, 7, 0, 5, 3, 1}) {
+      x.number(field);
+      x.give(field);
     }
-    refuses("give to a row", STATE, y -> y.give(0));
-    throwsBy("one value", with(), STATE, y -> {
-      y.object();
-      return y.give(0);
-    });
-    throwsBy("no value", with(), ARGUMENT, y -> y.give(8));
-    tell(x, "{0:[1,2,3,4,5,6,7,8,9,10],1:[1,2,3,4,5,6,7,8,9,10]}");
-    x.number(1);
-    due("24 parts", x.give(2), 1);
-    x.number(1);
-    throwsBy("25 parts", x, STATE, y -> y.give(3));
-    due("the same parts again", x.give(2), 1);
-    tell(x, "[1]");
-    throwsBy("one part more", x, STATE, y -> y.give(2));
-    x.drop();
-    tell(x, "{0:[1,2,3,4,5,6,7,8,9,10],1:[1,2,3,4,5,6,7,8,9,10]}");
-    tell(x, "[1,2,3,4,5,6,7,8,9,10,11]");
-    due("in place of 11 parts 12", x.give(1), 1);
-    due("24 parts can be told", x.insert(0, 2), 0);
-    due("parts", x.document(2, 2), 24);
+    x.insert(0, 0);
+    due("several fields", x.print(0), printOf("{0:0,1:1,3:3,5:5,7:7}"));
+    says("- field: 0 to 7");
+    range(0, 7, ARGUMENT, (y, field) -> y.give(field), pile("{}", "1"), RICH, FULL);
+    says("Returns how many values the pile has then.");
+    due("of two", pile("{}", "1").make().give(0), 1);
+    due("of ten", pile("_", "_", "_", "_", "_", "_", "_", "_", "{}", "1").make().give(7), 9);
+    says("Throws IllegalArgumentException if field is out of range");
+    range(0, 7, ARGUMENT, (y, field) -> y.give(field), FRESH, pile("1", "1"));
+    says("Throws IllegalStateException if there are not two, the lower one is no object, or it would have more than 24"
+        + " parts");
+    refuses("an empty pile", STATE, FRESH, y -> y.give(0));
+    refuses("one value", STATE, pile("{}"), y -> y.give(7));
+    for (String lower : new String[] {"_", "1", "w1", "[]", "[{}]"}) {
+      refuses("to " + lower, STATE, pile("{}", lower, "{}"), y -> y.give(3));
+    }
+    String many = "{1:" + row(1, 20, "") + "}";
+    due("24 parts", pile(many, "[1]").make().give(0), 1);
+    refuses("25 parts", STATE, pile(many, "[1,2]"), y -> y.give(0));
+    due("24 parts, in place", pile("{0:[1]," + many.substring(1), "[2]").make().give(0), 1);
+    refuses("25 parts, in place", STATE, pile("{0:[1]," + many.substring(1), "[1,2]"), y -> y.give(0));
+    due("24 parts, in place", pile("{0:1," + many.substring(1), row(1, 21, "")).make().give(1), 1);
+    refuses("25 parts, in place", STATE, pile("{0:1," + many.substring(1), row(1, 22, "")), y -> y.give(1));
+    due("24 parts", pile("{}", row(1, 22, "")).make().give(0), 1);
+    refuses("25 parts", STATE, pile("{}", row(1, 23, "")), y -> y.give(0));
   }
 
   static void promise9() {
+    section("Promise 9");
+    says("Empties the pile; returns how many values it had.");
     Shardmoor x = fullPile();
-    due("drop", x.drop(), 10);
-    due("drop", x.drop(), 0);
-    due("row", x.row(), 1);
-    due("drop", x.drop(), 1);
+    due("full", x.drop(), 10);
+    due("empty", x.drop(), 0);
+    due("the pile", x.row(), 1);
+    due("one", x.drop(), 1);
+    due("of all kinds", pile("_", "1", "w1", "[1,2]", "{0:1}").make().drop(), 5);
   }
+
+  // ---- documents
 
   static void promise10() {
+    section("Promise 10");
+    says("Tells a document: the top value, which is taken.");
+    Shardmoor x = pile("{1:1}", "{0:{7:w3}}").make();
+    x.insert(0, 7);
+    due("the top value", x.print(7), printOf("{0:{7:w3}}"));
+    due("documents", x.documents(), 1);
+    x.insert(0, 8);
+    due("the one below", x.print(8), printOf("{1:1}"));
+    due("both are taken", x.drop(), 0);
+    insert(x, 9, "{1:" + row(1, 22, "") + "}");
+    due("24 parts", x.document(9, 2), 24);
+    says("- router: 0 or 1");
+    range(0, 1, ARGUMENT, (y, router) -> y.insert(router, 50), pile("{}"), RICH, FULL);
+    says("- number: 0 to 99");
+    range(0, 99, ARGUMENT, (y, number) -> y.insert(1, number), pile("{}"), RICH, FULL);
+    says("Returns its shard.");
+    String[] keys = {"{}", "{0:-1}", "{0:0}", "{0:333}", "{0:334}", "{0:666}", "{0:667}", "{0:999}", "{0:w700}"};
+    int[] shards = {0, 0, 0, 0, 1, 1, 2, 2};
+    for (int i = 0; i < shards.length; i++) {
+      due("shard of " + keys[i], insert(new Shardmoor(), 0, keys[i]), shards[i]);
+    }
+    Shardmoor moved = new Shardmoor();
+    moved.move(0, 2);
+    due("while its chunk moves", insert(moved, 0, "{}"), 0);
+    moved.handOver();
+    due("when its chunk has moved", insert(moved, 1, "{}"), 2);
+    says("Throws IllegalArgumentException if router or number is out of range");
+    range(0, 1, ARGUMENT, (y, router) -> y.insert(router, 0), FRESH, pile("1"));
+    range(0, 99, ARGUMENT, (y, number) -> y.insert(0, number), FRESH, pile("1"));
+    says("Throws IllegalStateException if the top value is no object, there is such a document, there are 60, or a"
+        + " rule is not kept");
+    refuses("an empty pile", STATE, FRESH, y -> y.insert(0, 0));
+    for (String value : new String[] {"_", "1", "w1", "[]", "[{}]"}) {
+      refuses("tell " + value, STATE, pile("{}", value), y -> y.insert(0, 0));
+    }
+    for (int number = 3; number <= 7; number++) {
+      int there = number;
+      refuses("such a document", STATE, y -> y.insert(0, there));
+    }
+    refuses("a 61st", STATE, () -> told(60), y -> y.insert(0, 60));
+    due("a 60th", told(59).insert(0, 99), 0);
+    Maker ruled = () -> {
+      Shardmoor y = pile("{3:w1,5:{}}").make();
+      y.rule(3, 2);
+      y.rule(5, 3);
+      return y;
+    };
+    refuses("one of two rules", STATE, ruled, y -> y.insert(0, 0));
+    Shardmoor kept = ruled.make();
+    kept.row();
+    kept.give(5);
+    due("both rules", kept.insert(0, 0), 0);
+  }
+
+  /** So many empty documents, and an empty object on the pile. */
+  private static Shardmoor told(int many) {
     Shardmoor x = new Shardmoor();
-    due("shard", insert(x, 0, "{}"), 0);
-    due("shard", insert(x, 99, "{0:334}"), 1);
-    due("shard", insert(x, 98, "{0:667}"), 2);
-    due("the value is taken", x.drop(), 0);
-    due("documents", x.documents(), 3);
-    tell(x, "{}");
-    throwsBy("again", x, STATE, y -> y.insert(0, 99));
-    due("the value stays", x.drop(), 1);
-    tell(x, "[]");
-    throwsBy("a row", x, STATE, y -> y.insert(0, 1));
-    x.drop();
-    throwsBy("an empty pile", x, STATE, y -> y.insert(1, 1));
-    for (int n : new int[] {-1, 100, FAR[0], FAR[1]}) {
-      refuses("number", ARGUMENT, y -> y.insert(0, n));
+    for (int number = 0; number < many; number++) {
+      x.object();
+      x.insert(0, number);
     }
-    for (int r : new int[] {-1, 2, FAR[0], FAR[1]}) {
-      refuses("router", ARGUMENT, y -> y.insert(r, 0));
-    }
-    refuses("such a document", STATE, y -> y.insert(0, 3));
-    for (int i = 3; i < 60; i++) {
-      insert(x, i, "{}");
-    }
-    due("documents", x.documents(), 60);
     x.object();
-    throwsBy("a 61st", x, STATE, y -> y.insert(0, 60));
-    x.remove(0, 5);
-    due("in place of the one that went", x.insert(0, 60), 0);
-    Shardmoor y = new Shardmoor();
-    y.rule(2, 2);
-    y.object();
-    throwsBy("the field is missing", y, STATE, z -> z.insert(0, 1));
-    y.number(1);
-    y.give(2);
-    throwsBy("another kind", y, STATE, z -> z.insert(0, 1));
-    y.word(1);
-    y.give(2);
-    due("the kind that is needed", y.insert(0, 1), 0);
-  }
-
-  /** What an update makes of a document, and whether it is another one by that. */
-  static void updates(String before, int path, int operator, String value, String after) {
-    Shardmoor x = with(before);
-    if (!value.isEmpty()) {
-      tell(x, value);
-    }
-    String what = before + " at " + path + " by " + operator + " with " + value;
-    due(what, x.update(0, 0, path, operator) ? 1 : 0, before.equals(after) ? 0 : 1);
-    due("print of " + what, x.print(0), printOf(after));
-    due("pile after " + what, x.drop(), operator == 1 && !value.isEmpty() ? 1 : 0);
-    due("entry of " + what, x.next(1), before.equals(after) ? -1 : 2);
-  }
-
-  static void refusesUpdate(String before, int path, int operator, String value) {
-    Shardmoor x = with(before);
-    if (!value.isEmpty()) {
-      tell(x, value);
-    }
-    String what = before + " at " + path + " by " + operator + " with " + value;
-    throwsBy(what, x, STATE, y -> y.update(0, 0, path, operator) ? 1 : 0);
-    due("print after " + what, x.print(0), printOf(before));
-    due("pile after " + what, x.drop(), value.isEmpty() ? 0 : 1);
-    due("no entry by " + what, x.next(1), -1);
-  }
-
-  static void setUnset() {
-    updates("{}", 0, 0, "5", "{0:5}");
-    updates("{0:5}", 0, 0, "5", "{0:5}");
-    updates("{0:5}", 0, 0, "w5", "{0:w5}");
-    updates("{1:[1,2],2:3}", 1, 0, "{}", "{1:{},2:3}");
-    updates("{}", 17 + 8, 0, "5", "{2:{1:5}}");
-    updates("{2:{0:1,4:4}}", 17 + 8, 0, "[5]", "{2:{0:1,1:[5],4:4}}");
-    updates("{2:{1:4}}", 17 + 8, 0, "_", "{2:{1:_}}");
-    updates("{7:{7:1}}", 71, 0, "2", "{7:{7:2}}");
-    updates("{0:{0:1}}", 8, 0, "2", "{0:{0:2}}");
-    refusesUpdate("{2:[]}", 25, 0, "5");
-    refusesUpdate("{2:_}", 25, 0, "5");
-    refusesUpdate("{2:{}}", 25, 0, "");
-    updates("{0:5,1:6}", 0, 1, "", "{1:6}");
-    updates("{0:5,1:6}", 0, 1, "9", "{1:6}");
-    updates("{0:5}", 1, 1, "", "{0:5}");
-    updates("{2:{1:4}}", 25, 1, "", "{2:{}}");
-    updates("{2:{1:[4,{0:1}],3:1}}", 25, 1, "", "{2:{3:1}}");
-    updates("{2:{}}", 25, 1, "", "{2:{}}");
-    updates("{}", 25, 1, "", "{}");
-    refusesUpdate("{2:5}", 25, 1, "");
-  }
-
-  static void addPush() {
-    updates("{0:5}", 0, 2, "-6", "{0:-1}");
-    updates("{0:5}", 0, 2, "0", "{0:5}");
-    updates("{}", 0, 2, "0", "{0:0}");
-    updates("{0:-999}", 0, 2, "999", "{0:0}");
-    updates("{0:-500}", 0, 2, "-499", "{0:-999}");
-    updates("{0:500}", 0, 2, "499", "{0:999}");
-    refusesUpdate("{0:-500}", 0, 2, "-500");
-    refusesUpdate("{0:500}", 0, 2, "500");
-    refusesUpdate("{0:500}", 0, 2, "w1");
-    refusesUpdate("{}", 0, 2, "w1");
-    refusesUpdate("{0:w5}", 0, 2, "1");
-    refusesUpdate("{0:_}", 0, 2, "1");
-    refusesUpdate("{0:1}", 0, 2, "");
-    updates("{}", 25, 2, "7", "{2:{1:7}}");
-    updates("{2:{1:1}}", 25, 2, "7", "{2:{1:8}}");
-    refusesUpdate("{2:w7}", 25, 2, "7");
-    refusesUpdate("{2:{1:w1}}", 25, 2, "7");
-    updates("{}", 3, 3, "[1]", "{3:[[1]]}");
-    updates("{3:[1,[2]]}", 3, 3, "1", "{3:[1,[2],1]}");
-    refusesUpdate("{3:{}}", 3, 3, "1");
-    refusesUpdate("{3:1}", 3, 3, "1");
-    refusesUpdate("{3:[1]}", 3, 3, "");
-    updates("{}", 25, 3, "w1", "{2:{1:[w1]}}");
-    updates("{2:{1:[5],2:6}}", 25, 3, "w1", "{2:{1:[5,w1],2:6}}");
-    refusesUpdate("{2:[5]}", 25, 3, "w1");
-    refusesUpdate("{2:{1:5}}", 25, 3, "w1");
-    String twenty = "1,2,3,4,5,6,7,8,9,10,11,12,13,14,15,16,17,18,19,20";
-    updates("{1:[" + twenty + "]}", 1, 3, "[1]", "{1:[" + twenty + ",[1]]}");
-    refusesUpdate("{1:[" + twenty + "]}", 1, 3, "[1,2]");
-    updates("{1:[" + twenty + "]}", 2, 3, "1", "{1:[" + twenty + "],2:[1]}");
-    refusesUpdate("{1:[" + twenty + "]}", 25, 3, "1");
-    updates("{1:[" + twenty + "]}", 25, 2, "1", "{1:[" + twenty + "],2:{1:1}}");
-    refusesUpdate("{1:[" + twenty + "]}", 2, 0, "[1,2]");
-    updates("{1:[" + twenty + ",21]}", 1, 0, "[21]", "{1:[21]}");
-    String eight = "{0:{},1:{},2:{},3:{},4:{},5:{},6:{},7:{}}";
-    String fieldsOnly = "{0:" + eight + ",1:" + eight + ",3:{0:{},1:{},2:{},3:{}}}";
-    refusesUpdate(fieldsOnly, 25, 0, fieldsOnly);
-    refusesUpdate(fieldsOnly, 25, 3, fieldsOnly);
-    refusesUpdate(fieldsOnly, 25, 2, "1");
-    refusesUpdate("{0:" + eight + "}", 25, 0, fieldsOnly);
-    refusesUpdate("{0:" + eight + "}", 25, 3, fieldsOnly);
-    updates(fieldsOnly, 3, 0, "{3:{1:{},2:{}},4:{}}", "{0:" + eight + ",1:" + eight + ",3:{3:{1:{},2:{}},4:{}}}");
-    refusesUpdate(fieldsOnly, 3, 0, "{3:{1:{},2:{}},4:{},5:{}}");
-  }
-
-  static void pullEach() {
-    updates("{1:[1,2,1,[1],1]}", 1, 4, "1", "{1:[2,[1]]}");
-    updates("{1:[[1],[2],[1]]}", 1, 4, "[1]", "{1:[[2]]}");
-    updates("{1:[{0:1},1,{0:1,1:1}]}", 1, 4, "{0:1}", "{1:[1,{0:1,1:1}]}");
-    updates("{1:[1,w1,_]}", 1, 4, "2", "{1:[1,w1,_]}");
-    updates("{1:[1]}", 1, 4, "1", "{1:[]}");
-    updates("{1:[1]}", 2, 4, "1", "{1:[1]}");
-    updates("{}", 25, 4, "1", "{}");
-    updates("{2:{}}", 25, 4, "1", "{2:{}}");
-    updates("{2:{1:[4,5]}}", 25, 4, "5", "{2:{1:[4]}}");
-    refusesUpdate("{1:1}", 1, 4, "1");
-    refusesUpdate("{1:[]}", 9 + 8, 4, "1");
-    refusesUpdate("{1:[]}", 1, 4, "");
-    refusesUpdate("{2:{1:{}}}", 25, 4, "1");
-    updates("{1:[1,w1,[1],{0:1},-5,_]}", 1, 5, "10", "{1:[11,w1,[1],{0:1},5,_]}");
-    updates("{1:[1,2]}", 1, 5, "0", "{1:[1,2]}");
-    updates("{1:[w1]}", 1, 5, "4", "{1:[w1]}");
-    updates("{}", 1, 5, "4", "{}");
-    updates("{}", 25, 5, "4", "{}");
-    updates("{2:{1:[4,5]}}", 25, 5, "-5", "{2:{1:[-1,0]}}");
-    updates("{1:[998,-1]}", 1, 5, "1", "{1:[999,0]}");
-    refusesUpdate("{1:[5,999]}", 1, 5, "1");
-    refusesUpdate("{1:[5,-999]}", 1, 5, "-1");
-    refusesUpdate("{1:[5]}", 1, 5, "w1");
-    refusesUpdate("{}", 1, 5, "w1");
-    refusesUpdate("{}", 25, 5, "[]");
-    refusesUpdate("{1:5}", 1, 5, "1");
-    refusesUpdate("{2:5}", 25, 5, "1");
-    refusesUpdate("{2:{1:5}}", 25, 5, "1");
-    refusesUpdate("{}", 1, 5, "");
+    return x;
   }
 
   static void promise11() {
-    setUnset();
-    addPush();
-    pullEach();
-    for (int n : new int[] {-1, 2, 99, 100, FAR[0], FAR[1]}) {
-      refuses("no document", BOUNDS, y -> y.update(0, n, 0, 1) ? 1 : 0);
-      refuses("no document, no router", BOUNDS, y -> y.update(7, n, 99, 9) ? 1 : 0);
+    section("Promise 11");
+    says("Updates a document.");
+    updates("{0:5}", 0, SET, "6", "{0:6}");
+    updates("{0:5}", 0, UNSET, "", "{}");
+    updates("{0:5}", 0, ADD, "6", "{0:11}");
+    updates("{0:[5]}", 0, PUSH, "6", "{0:[5,6]}");
+    updates("{0:[5,6]}", 0, PULL, "6", "{0:[5]}");
+    updates("{0:[5,6]}", 0, EACH, "6", "{0:[11,12]}");
+    Shardmoor x = with("{0:1}", "{0:1}", "{0:1}");
+    update(x, 1, 0, SET, "2");
+    due("no other one", x.print(0) == printOf("{0:1}") && x.print(2) == printOf("{0:1}"), true);
+    says("- router: 0 or 1");
+    range(0, 1, ARGUMENT, (y, router) -> y.update(router, 3, 3, SET) ? 1 : 0, RICH);
+    says("- number: that of the document");
+    range(3, 7, BOUNDS, (y, number) -> y.update(0, number, 3, SET) ? 1 : 0, RICH);
+    range(0, 57, BOUNDS, (y, number) -> y.update(0, number, 3, SET) ? 1 : 0, FULL);
+    range(98, 99, BOUNDS, (y, number) -> y.update(0, number, 3, SET) ? 1 : 0, FULL);
+    says("- path: 0 to 71");
+    range(0, 71, ARGUMENT, (y, path) -> y.update(0, 3, path, SET) ? 1 : 0, RICH);
+    says("- operator: 0 to 5");
+    range(0, 5, ARGUMENT, (y, operator) -> y.update(0, 3, 1, operator) ? 1 : 0, RICH);
+    says("Returns whether it is another one by that.");
+    updates("{0:5}", 0, SET, "5", "{0:5}");
+    updates("{0:{3:[1],5:w1}}", 0, SET, "{5:w1,3:[1]}", "{0:{3:[1],5:w1}}");
+    updates("{}", 0, SET, "_", "{0:_}");
+    updates("{}", 8, UNSET, "", "{}");
+    updates("{0:0}", 0, ADD, "0", "{0:0}");
+    updates("{}", 0, ADD, "0", "{0:0}");
+    updates("{0:[]}", 0, PULL, "0", "{0:[]}");
+    updates("{0:[w1]}", 0, EACH, "5", "{0:[w1]}");
+    updates("{0:[1]}", 0, EACH, "0", "{0:[1]}");
+    says("Throws IndexOutOfBoundsException if there is no such document");
+    for (int number : new int[] {-1, 0, 2, 8, 99, 100, FAR[0], FAR[1]}) {
+      refuses("number " + number, BOUNDS, y -> y.update(0, number, 0, UNSET) ? 1 : 0);
+      refuses("number " + number, BOUNDS, y -> y.update(2, number, 72, 6) ? 1 : 0);
+      refuses("number " + number, BOUNDS, FRESH, y -> y.update(0, number, 0, SET) ? 1 : 0);
     }
-    for (int n : new int[] {-1, 2, FAR[0], FAR[1]}) {
-      refuses("router", ARGUMENT, y -> y.update(n, 3, 0, 1) ? 1 : 0);
+    says("Throws IllegalArgumentException if router, path or operator is out of range");
+    Maker emptyPile = () -> with("{}", "{}", "{}", "{}");
+    range(0, 1, ARGUMENT, (y, router) -> y.update(router, 3, 0, SET) ? 1 : 0, emptyPile);
+    range(0, 71, ARGUMENT, (y, path) -> y.update(0, 3, path, SET) ? 1 : 0, emptyPile);
+    range(0, 5, ARGUMENT, (y, operator) -> y.update(0, 3, 1, operator) ? 1 : 0, emptyPile);
+    updatesThatThrow();
+  }
+
+  private static void updatesThatThrow() {
+    says("Throws IllegalStateException if the pile is empty (but for UNSET), a value is not of the kind that is"
+        + " needed, a number would be out of range, a rule would not be kept, or it would have more than 24 parts");
+    for (int operator : new int[] {SET, ADD, PUSH, PULL, EACH}) {
+      refusesUpdate("{}", 0, operator, "");
+      refusesUpdate("{}", 71, operator, "");
     }
-    for (int n : new int[] {-1, 72, FAR[0], FAR[1]}) {
-      refuses("path", ARGUMENT, y -> y.update(0, 3, n, 1) ? 1 : 0);
+    updates("{0:1}", 0, UNSET, "", "{}");
+    refusesUpdate("{0:w1}", 0, ADD, "1");
+    refusesUpdate("{0:1}", 0, ADD, "w1");
+    refusesUpdate("{0:1}", 0, PUSH, "1");
+    refusesUpdate("{0:1}", 0, PULL, "1");
+    refusesUpdate("{0:1}", 0, EACH, "1");
+    refusesUpdate("{0:[1]}", 0, EACH, "w1");
+    for (int operator = SET; operator <= EACH; operator++) {
+      refusesUpdate("{0:[]}", 8, operator, operator == UNSET ? "" : "1");
     }
-    for (int n : new int[] {-1, 6, FAR[0], FAR[1]}) {
-      refuses("operator", ARGUMENT, y -> y.update(0, 3, 0, n) ? 1 : 0);
+    refusesUpdate("{0:999}", 0, ADD, "1");
+    refusesUpdate("{0:-999}", 0, ADD, "-1");
+    refusesUpdate("{0:[1,999]}", 0, EACH, "1");
+    refusesUpdate("{0:[1,-999]}", 0, EACH, "-1");
+    Maker ruled = () -> {
+      Shardmoor x = with("{0:1,1:[],2:{}}");
+      x.rule(0, 1);
+      x.rule(1, 3);
+      x.rule(2, 4);
+      tell(x, "w1");
+      return x;
+    };
+    for (int field = 0; field <= 2; field++) {
+      int path = field;
+      refuses("unset by a rule", STATE, ruled, x -> x.update(0, 0, path, UNSET) ? 1 : 0);
+      refuses("set by a rule", STATE, ruled, x -> x.update(0, 0, path, SET) ? 1 : 0);
     }
-    refuses("a rule", STATE, y -> y.update(0, 3, 1, 1) ? 1 : 0);
-    refuses("a rule", STATE, y -> y.update(0, 3, 1, 0) ? 1 : 0);
-    refuses("no number", STATE, y -> y.update(0, 3, 0, 2) ? 1 : 0);
-    Shardmoor x = with("{0:1}", "{0:2}");
-    x.number(500);
-    due("to another shard", x.update(1, 1, 0, 0) ? 1 : 0, 1);
-    due("its shard", x.document(1, 0), 1);
-    due("one entry", x.next(2), 3);
-    due("no more", x.next(3), -1);
-    due("changed", x.change(3, 0), 1);
-    due("document", x.change(3, 1), 1);
-    due("in the shard where it lies then", x.change(3, 2), 1);
+    due("another field", ruled.make().update(0, 0, 3, SET), true);
+    due("a field in one with a rule", ruled.make().update(0, 0, 24, SET), true);
+    due("behind a row with a rule", ruled.make().update(0, 0, 1, PUSH), true);
+    String many = "{0:" + row(1, 21, "") + "}";
+    updates(many, 1, SET, "1", many.replace("}", ",1:1}"));
+    refusesUpdate(many, 1, SET, "[1]");
+    refusesUpdate(many, 1, PUSH, "1");
+    refusesUpdate(many, 16, ADD, "1");
+    updates(many, 0, PUSH, "1", "{0:" + row(1, 21, ",1") + "}");
+    refusesUpdate(many, 0, PUSH, "[1]");
+    String eight = "{0:{},1:{},2:{},3:{},4:{},5:{},6:{},7:{}}";
+    String fieldsOnly = "{0:" + eight + ",1:" + eight + ",3:{0:{},1:{},2:{},3:{}}}";
+    refusesUpdate(fieldsOnly, 25, SET, fieldsOnly);
+    refusesUpdate(fieldsOnly, 25, PUSH, fieldsOnly);
+    refusesUpdate(fieldsOnly, 25, ADD, "1");
+    refusesUpdate("{0:" + eight + "}", 25, SET, fieldsOnly);
+    refusesUpdate("{0:" + eight + "}", 25, PUSH, fieldsOnly);
+    updates(fieldsOnly, 3, SET, "{3:{1:{},2:{}},4:{}}", "{0:" + eight + ",1:" + eight + ",3:{3:{1:{},2:{}},4:{}}}");
+    refusesUpdate(fieldsOnly, 3, SET, "{3:{1:{},2:{}},4:{},5:{}}");
   }
 
   static void promise12() {
+    section("Promise 12");
+    says("Removes a document.");
     Shardmoor x = with("{0:1}", "{0:400}", "{0:999}");
-    due("remove", x.remove(1, 1), 1);
-    due("remove", x.remove(0, 2), 2);
-    due("documents", x.documents(), 1);
-    due("its parts", x.document(1, 2), -1);
-    throwsBy("again", x, BOUNDS, y -> y.remove(0, 1));
+    x.remove(1, 1);
+    due("documents", x.documents(), 2);
+    due("none", x.document(1, 2), -1);
+    due("others stay", x.print(0) == printOf("{0:1}") && x.print(2) == printOf("{0:999}"), true);
     due("told anew", insert(x, 1, "{0:700}"), 2);
-    for (int n : new int[] {-1, 2, 100, FAR[0], FAR[1]}) {
-      refuses("no document", BOUNDS, y -> y.remove(0, n));
-      refuses("no document, no router", BOUNDS, y -> y.remove(9, n));
+    says("- router: 0 or 1");
+    range(0, 1, ARGUMENT, (y, router) -> y.remove(router, 3), RICH, FULL);
+    says("- number: that of the document");
+    range(3, 7, BOUNDS, (y, number) -> y.remove(0, number), RICH);
+    range(0, 57, BOUNDS, (y, number) -> y.remove(0, number), FULL);
+    range(98, 99, BOUNDS, (y, number) -> y.remove(0, number), FULL);
+    says("Returns the shard in which it lay.");
+    String[] keys = {"{}", "{0:333}", "{0:334}", "{0:666}", "{0:667}", "{0:999}"};
+    for (int i = 0; i < keys.length; i++) {
+      due("shard of " + keys[i], with(keys[i]).remove(0, 0), i / 2);
     }
-    for (int n : new int[] {-1, 2, FAR[0], FAR[1]}) {
-      refuses("router", ARGUMENT, y -> y.remove(n, 3));
+    says("Throws IndexOutOfBoundsException if there is no such document");
+    for (int number : new int[] {-1, 0, 2, 8, 99, 100, FAR[0], FAR[1]}) {
+      refuses("number " + number, BOUNDS, y -> y.remove(0, number));
+      refuses("number " + number, BOUNDS, y -> y.remove(2, number));
+      refuses("number " + number, BOUNDS, FRESH, y -> y.remove(0, number));
     }
+    says("Throws IllegalArgumentException if router is out of range");
+    range(0, 1, ARGUMENT, (y, router) -> y.remove(router, 0), () -> with("{}"), FULL);
   }
 
   static void promise13() {
+    section("Promise 13");
+    says("Sets the rule for a field.");
+    for (int field = 0; field < 8; field++) {
+      Shardmoor x = pile("{}").make();
+      x.rule(field, 1);
+      throwsBy("the field is missing", x, STATE, y -> y.insert(0, 0));
+      x.number(1);
+      x.give((field + 1) % 8);
+      throwsBy("another field", x, STATE, y -> y.insert(0, 0));
+      x.number(1);
+      x.give(field);
+      due("the field", x.insert(0, 0), 0);
+    }
+    says("- field: 0 to 7");
+    range(0, 7, ARGUMENT, (x, field) -> x.rule(field, 0), ALL);
+    says("- kind: 0 for none, 1 to 4");
+    range(0, 4, ARGUMENT, (x, kind) -> x.rule(5, kind), ALL);
     String[] values = {"_", "1", "w1", "[]", "{}"};
     for (int kind = 1; kind <= 4; kind++) {
-      for (int i = 0; i < values.length; i++) {
-        Shardmoor x = with("{3:" + values[i] + "}");
+      for (int value = 0; value <= 4; value++) {
         int needed = kind;
-        if (i == kind) {
-          due("rule", x.rule(3, kind), 0);
-          due("rule", x.rule(3, 0), kind);
-          due("rule", x.rule(3, kind), 0);
+        Maker state = made("{3:" + values[value] + "}");
+        if (value == kind) {
+          due("the kind " + kind, state.make().rule(3, kind), 0);
         } else {
-          throwsBy("rule " + kind + " for " + values[i], x, STATE, y -> y.rule(3, needed));
-          due("rule as before", x.rule(3, 0), 0);
+          refuses("another kind", STATE, state, x -> x.rule(3, needed));
         }
       }
-      int needed = kind;
-      throwsBy("rule for a missing field", with("{}"), STATE, y -> y.rule(7, needed));
     }
+    says("Returns the kind before.");
     Shardmoor x = new Shardmoor();
-    due("rule", x.rule(7, 4), 0);
-    due("rule", x.rule(7, 1), 4);
-    due("rule", x.rule(0, 1), 0);
-    throwsBy("one of two rules", x, STATE, y -> insert(y, 1, "{0:1}"));
-    x.drop();
-    due("both", insert(x, 1, "{0:1,7:1}"), 0);
-    throwsBy("unset", x, STATE, y -> y.update(0, 1, 7, 1) ? 1 : 0);
-    x.word(1);
-    throwsBy("set", x, STATE, y -> y.update(0, 1, 7, 0) ? 1 : 0);
-    x.rule(7, 0);
-    due("set without the rule", x.update(0, 1, 7, 0) ? 1 : 0, 1);
-    for (int n : new int[] {-1, 8, FAR[0], FAR[1]}) {
-      refuses("field", ARGUMENT, y -> y.rule(n, 0));
+    int[] kinds = {4, 1, 2, 3, 0, 3, 3, 0, 0};
+    for (int i = 0; i < kinds.length; i++) {
+      due("the kind before", x.rule(7, kinds[i]), i == 0 ? 0 : kinds[i - 1]);
+      due("of another field", x.rule(6, 0), 0);
     }
-    for (int n : new int[] {-1, 5, FAR[0], FAR[1]}) {
-      refuses("kind", ARGUMENT, y -> y.rule(1, n));
-    }
+    says("Throws IllegalArgumentException if field or kind is out of range");
+    range(0, 7, ARGUMENT, (y, field) -> y.rule(field, 4), () -> with("{}"));
+    range(0, 4, ARGUMENT, (y, kind) -> y.rule(0, kind), () -> with("{}"));
+    says("Throws IllegalStateException if some document does not keep it");
+    refuses("kept by none", STATE, y -> y.rule(6, 1));
     refuses("kept by some only", STATE, y -> y.rule(3, 1));
+    refuses("kept by all but one", STATE, () -> with("{3:1}", "{3:2}", "{3:w1}"), y -> y.rule(3, 1));
+    refuses("kept by all but the first", STATE, () -> with("{}", "{3:1}", "{3:1}"), y -> y.rule(3, 1));
+    due("kept by all", with("{3:1}", "{3:2}", "{3:3}").rule(3, 1), 0);
+    due("no documents", new Shardmoor().rule(3, 1), 0);
+    due("none is always kept", rich().rule(1, 0), 3);
   }
 
-  static void promises14And15() {
-    Shardmoor x = with("{0:1,1:2}");
-    due("index", x.index(71, true), 0);
-    due("index", x.index(0, false), 1);
-    throwsBy("the same path", x, STATE, y -> y.index(0, true));
-    due("index", x.index(1, false), 2);
-    throwsBy("a fourth", x, STATE, y -> y.index(2, false));
-    throwsBy("a fourth, no path", x, ARGUMENT, y -> y.index(72, false));
-    due("drop", x.dropIndex(1), 0);
-    throwsBy("dropped", x, BOUNDS, y -> y.dropIndex(1));
-    throwsBy("dropped", x, BOUNDS, y -> y.entries(1));
-    due("the lowest that is free", x.index(2, false), 1);
-    due("drop", x.dropIndex(2), 0);
-    due("drop", x.dropIndex(0), 0);
-    due("the lowest that is free", x.index(0, false), 0);
-    for (int n : new int[] {-1, 72, FAR[0], FAR[1]}) {
-      refuses("path", ARGUMENT, y -> y.index(n, true));
+  private static Maker made(String... documents) {
+    return () -> with(documents);
+  }
+
+  // ---- indexes, queries
+
+  static void promise14() {
+    section("Promise 14");
+    says("Makes an index.");
+    Shardmoor x = with("{0:1}", "{0:1}", "{0:{5:1}}");
+    x.index(0, true);
+    due("entries", x.entries(0), 3);
+    x.index(13, true);
+    due("entries", x.entries(1), 1);
+    says("- path: 0 to 71");
+    range(0, 71, ARGUMENT, (y, path) -> y.index(path, true), ALL);
+    for (int path = 0; path < 72; path++) {
+      due("index of " + path, new Shardmoor().index(path, false), 0);
     }
+    says("- isSparse: whether it is sparse");
+    due("entries of a sparse one", x.entries(1), 1);
+    x.dropIndex(1);
+    x.index(13, false);
+    due("entries of one that is not", x.entries(1), 3);
+    says("Returns its number, the lowest one that is free of 0 to 2.");
+    int[][] runs = {{}, {0}, {1}, {2}, {0, 1}, {0, 2}, {1, 2}, {2, 1, 0}};
+    for (int[] dropped : runs) {
+      Shardmoor y = new Shardmoor();
+      for (int i = 0; i < 3; i++) {
+        due("index", y.index(60 + i, true), i);
+      }
+      for (int index : dropped) {
+        y.dropIndex(index);
+      }
+      java.util.Arrays.sort(dropped);
+      for (int index : dropped) {
+        due("the lowest that is free", y.index(index, false), index);
+      }
+      throwsBy("a fourth", y, STATE, z -> z.index(9, true));
+    }
+    says("Throws IllegalArgumentException if path is out of range");
+    range(0, 71, ARGUMENT, (y, path) -> y.index(path, false), FULL);
+    says("Throws IllegalStateException if there are 3, or one with the path");
+    refuses("a fourth", STATE, FULL, y -> y.index(2, true));
+    refuses("a fourth", STATE, FULL, y -> y.index(1, true));
+    refuses("one with the path", STATE, y -> y.index(1, true));
     refuses("one with the path", STATE, y -> y.index(1, false));
-    for (int n : new int[] {-1, 2, 3, FAR[0], FAR[1]}) {
-      refuses("no index", BOUNDS, y -> y.dropIndex(n));
+    refuses("one with the path", STATE, y -> y.index(25, true));
+    due("another path", rich().index(26, true), 2);
+  }
+
+  static void promise15() {
+    section("Promise 15");
+    says("Drops an index, and all plans that are kept with it.");
+    Shardmoor x = indexed();
+    x.dropIndex(0);
+    throwsBy("dropped", x, BOUNDS, y -> y.entries(0));
+    due("others stay", x.entries(1), 3);
+    due("plans", x.plan(4), 2);
+    x.find(0);
+    duePlan("a plan by none is kept", x, -1, 3, 0, 0, 2);
+    filter(x, 0, 0, "1");
+    x.find(0);
+    duePlan("a plan with it is not", x, -1, 3, 1, 0, 3);
+    x.clear();
+    filter(x, 1, 0, "3");
+    x.find(0);
+    duePlan("a plan with another is kept", x, 1, 1, 0, 0, 3);
+    says("- index: its number");
+    for (int index = 0; index <= 1; index++) {
+      Shardmoor y = indexed();
+      y.dropIndex(index);
+      int gone = index;
+      throwsBy("it", y, BOUNDS, z -> z.entries(gone));
+      due("the other", y.entries(1 - index), 3);
     }
-    Shardmoor plans = with("{0:1,1:2}", "{0:2,1:2}", "{0:3,1:3}");
-    plans.index(0, true);
-    plans.index(1, true);
-    filter(plans, 0, 0, "1");
-    plans.find(0);
-    filter(plans, 2, 3, "_");
-    plans.find(0);
-    plans.clear();
-    filter(plans, 1, 0, "3");
-    plans.find(0);
-    plans.clear();
-    plans.find(0);
-    due("plans", plans.plan(4), 4);
-    due("two plans with it", plans.dropIndex(0), 2);
-    due("plans", plans.plan(4), 2);
-    due("it looked by", plans.plan(0), -1);
-    due("one plan with it", plans.dropIndex(1), 1);
-    due("the one by none", plans.plan(4), 1);
+    says("Returns how many plans are dropped.");
+    due("two plans with the first", indexed().dropIndex(0), 2);
+    due("one with the second", indexed().dropIndex(1), 1);
+    x = indexed();
+    x.dropIndex(0);
+    x.dropIndex(1);
+    due("the one by none", x.plan(4), 1);
+    x.index(0, true);
+    due("none", x.dropIndex(0), 0);
+    says("Throws IndexOutOfBoundsException if there is no such index");
+    range(0, 2, BOUNDS, (y, index) -> y.dropIndex(index), FULL);
+    range(0, 1, BOUNDS, (y, index) -> y.dropIndex(index), RICH);
+    for (int index = 0; index < 3; index++) {
+      int none = index;
+      refuses("no index", BOUNDS, FRESH, y -> y.dropIndex(none));
+      refuses("dropped", BOUNDS, () -> {
+        Shardmoor y = full();
+        y.dropIndex(none);
+        return y;
+      }, y -> y.dropIndex(none));
+    }
+  }
+
+  /** Two indexes, two plans with the first, one with the second, one by none. */
+  private static Shardmoor indexed() {
+    Shardmoor x = with("{0:1,1:2}", "{0:2,1:2}", "{0:3,1:3}");
+    x.index(0, true);
+    x.index(1, true);
+    filter(x, 0, 0, "1");
+    x.find(0);
+    filter(x, 2, 3, "_");
+    x.find(0);
+    x.clear();
+    filter(x, 1, 0, "3");
+    x.find(0);
+    x.clear();
+    x.find(0);
+    due("plans", x.plan(4), 4);
+    return x;
   }
 
   static void promise16() {
-    Shardmoor x = new Shardmoor();
-    tell(x, "1");
-    due("filter", x.filter(71, 4), 1);
-    tell(x, "_");
-    due("filter", x.filter(0, 3), 2);
-    tell(x, "[]");
-    due("filter", x.filter(0, 1), 3);
-    due("the values are taken", x.drop(), 0);
-    throwsBy("an empty pile", x, STATE, y -> y.filter(0, 3));
+    section("Promise 16");
+    says("Adds a filter to the query, with the top value, which is taken.");
+    Shardmoor x = with("{1:5}", "{1:6}");
+    tell(x, "5");
+    tell(x, "6");
+    x.filter(1, 0);
+    dueText("by the top value", foundBy(x), "1");
+    due("one value is left", x.drop(), 1);
+    says("- path: 0 to 71");
+    range(0, 71, ARGUMENT, (y, path) -> y.filter(path, 0), pile("1"), RICH, FULL);
+    says("- relation: 0 to 4");
+    range(0, 4, ARGUMENT, (y, relation) -> y.filter(0, relation), pile("1"), RICH, FULL);
+    says("Returns how many filters it has then.");
+    x = new Shardmoor();
+    for (int many = 1; many <= 3; many++) {
+      x.number(1);
+      due("filters", x.filter(71, many + 1), many);
+    }
+    x.clear();
     x.number(1);
-    throwsBy("a fourth", x, STATE, y -> y.filter(0, 0));
-    due("the value stays", x.drop(), 1);
-    due("clear", x.clear(), 3);
-    for (String value : new String[] {"_", "w1", "[]", "{}"}) {
-      tell(x, value);
-      throwsBy("no number", x, STATE, y -> y.filter(0, 4));
+    due("filters", x.filter(71, 4), 1);
+    says("Throws IllegalArgumentException if path or relation is out of range");
+    range(0, 71, ARGUMENT, (y, path) -> y.filter(path, 0), FRESH);
+    range(0, 4, ARGUMENT, (y, relation) -> y.filter(0, relation), FRESH);
+    says("Throws IllegalStateException if the pile is empty, the query has 3 filters, or the value of the relation 4"
+        + " is no number");
+    for (int relation = 0; relation <= 4; relation++) {
+      int asked = relation;
+      refuses("an empty pile", STATE, FRESH, y -> y.filter(0, asked));
+      refuses("a fourth", STATE, FULL, y -> y.filter(0, asked));
+      due("no number", answer(pile("{}").make(), y -> y.filter(0, asked)) == STATE, relation == 4);
     }
-    due("all stay", x.drop(), 4);
-    for (int n : new int[] {-1, 72, FAR[0], FAR[1]}) {
-      refuses("path", ARGUMENT, y -> y.filter(n, 0));
+    for (String value : new String[] {"_", "w1", "[]", "[1]", "{}"}) {
+      refuses("so many parts by " + value, STATE, pile("1", value), y -> y.filter(0, 4));
     }
-    for (int n : new int[] {-1, 5, FAR[0], FAR[1]}) {
-      refuses("relation", ARGUMENT, y -> y.filter(0, n));
-    }
-    refuses("no number", STATE, y -> y.filter(0, 4));
+    due("by a number", pile("-999").make().filter(0, 4), 1);
+    due("by a number", pile("999").make().filter(0, 4), 1);
   }
 
   static void promise17() {
-    Shardmoor x = with("{0:1}", "{0:2}");
-    filter(x, 0, 0, "2");
-    due("find", x.find(0), 1);
-    due("clear", x.clear(), 1);
-    due("what was found stays", x.found(0), 1);
-    due("clear", x.clear(), 0);
-    due("find", x.find(0), 2);
-  }
-
-  static void relations() {
-    String[] rows = {"{}", "{1:_}", "{1:1}", "{1:w1}", "{1:[]}", "{1:[1]}", "{1:{}}", "{1:[[1],2]}"};
-    dueText("same as 1", fitting(1, 0, "1", rows), "2 5");
-    dueText("same as w1", fitting(1, 0, "w1", rows), "3");
-    dueText("same as nothing", fitting(1, 0, "_", rows), "1");
-    dueText("same as []", fitting(1, 0, "[]", rows), "4");
-    dueText("same as [1]", fitting(1, 0, "[1]", rows), "5 7");
-    dueText("same as {}", fitting(1, 0, "{}", rows), "6");
-    dueText("has", fitting(1, 3, "w9", rows), "1 2 3 4 5 6 7");
-    dueText("parts 0", fitting(1, 4, "0", rows), "4");
-    dueText("parts 1", fitting(1, 4, "1", rows), "5 7");
-    dueText("parts 2", fitting(1, 4, "2", rows), "7");
-    dueText("parts -1", fitting(1, 4, "-1", rows), "");
-    String[] sizes = {"{1:-999}", "{1:0}", "{1:1}", "{1:2}", "{1:999}", "{1:w0}", "{1:w1}", "{1:w2}", "{1:[w0,3]}", "{1:_}"};
-    dueText("less than 1", fitting(1, 1, "1", sizes), "0 1");
-    dueText("greater than 1", fitting(1, 2, "1", sizes), "3 4 8");
-    dueText("less than w1", fitting(1, 1, "w1", sizes), "5 8");
-    dueText("greater than w1", fitting(1, 2, "w1", sizes), "7");
-    dueText("greater than -999", fitting(1, 2, "-999", sizes), "1 2 3 4 8");
-    dueText("less than -999", fitting(1, 1, "-999", sizes), "");
-    for (String none : new String[] {"_", "[]", "{}", "[9]"}) {
-      dueText("less than " + none, fitting(1, 1, none, sizes), "");
-      dueText("greater than " + none, fitting(1, 2, none, sizes), "");
+    section("Promise 17");
+    says("Empties the query; returns how many filters it had.");
+    for (int many = 0; many <= 3; many++) {
+      Shardmoor x = with("{0:1}", "{0:2}");
+      for (int i = 0; i < many; i++) {
+        filter(x, 0, 0, "2");
+      }
+      due("find", x.find(0), many > 0 ? 1 : 2);
+      due("clear", x.clear(), many);
+      due("what was found stays", x.found(0), many > 0 ? 1 : 0);
+      due("clear", x.clear(), 0);
+      due("find", x.find(0), 2);
     }
-  }
-
-  static void paths() {
-    String[] rows = {"{2:{1:5}}", "{2:{1:[5,[5],6]}}", "{2:[{1:5},{0:7},[{1:6}],{1:[7]}]}", "{2:5}", "{1:5}", "{2:{0:5}}"};
-    dueText("5 at 25", fitting(25, 0, "5", rows), "0 1 2");
-    dueText("6 at 25", fitting(25, 0, "6", rows), "1");
-    dueText("7 at 25", fitting(25, 0, "7", rows), "2");
-    dueText("[5] at 25", fitting(25, 0, "[5]", rows), "1");
-    dueText("[7] at 25", fitting(25, 0, "[7]", rows), "2");
-    dueText("some at 25", fitting(25, 3, "_", rows), "0 1 2");
-    dueText("5 at 2", fitting(2, 0, "5", rows), "3");
-    dueText("{1:5} at 2", fitting(2, 0, "{1:5}", rows), "0 2");
-    dueText("{0:7} at 2", fitting(2, 0, "{0:7}", rows), "2");
-    dueText("4 parts at 2", fitting(2, 4, "4", rows), "2");
-    dueText("a field in a field of field 7", fitting(71, 0, "1", "{7:{7:1}}", "{7:1}", "{7:[{7:1}]}"), "0 2");
-    dueText("a field in field 0", fitting(8, 0, "1", "{0:{0:1}}", "{0:1}", "{1:{0:1}}"), "0");
-    dueText("the same object, its fields told in another order", fitting(0, 0, "{3:1,1:2}", "{0:{1:2,3:1}}"), "0");
   }
 
   static void promises18To20() {
-    relations();
-    paths();
+    section("Promise 18");
+    says("Finds what the query asks for.");
     Shardmoor x = with("{0:1,1:1}", "{0:2,1:1}", "{0:3,1:2}", "{0:4,1:1,2:1}");
-    due("no filter", x.find(0), 4);
     filter(x, 1, 0, "1");
-    due("one", x.find(0), 3);
     filter(x, 0, 2, "1");
-    due("two", x.find(1), 2);
-    filter(x, 2, 3, "_");
-    due("three", x.find(1), 1);
-    due("found", x.found(0), 3);
-    throwsBy("found", x, BOUNDS, y -> y.found(1));
-    due("findAnew", x.findAnew(), 1);
-    x.remove(0, 3);
-    due("found as it was", x.found(0), 3);
-    due("findAnew", x.findAnew(), 0);
-    insert(x, 90, "{0:2,1:1,2:_}");
-    insert(x, 20, "{0:2,1:1,2:_}");
-    due("findAnew", x.findAnew(), 2);
-    due("found as it was", x.found(0), 3);
-    due("find", x.find(0), 2);
-    due("by rising numbers", x.found(0), 20);
-    due("by rising numbers", x.found(1), 90);
-    for (int n : new int[] {-1, 2, FAR[0], FAR[1]}) {
-      refuses("router", ARGUMENT, y -> y.find(n));
+    dueText("found", foundBy(x), "1 3");
+    says("- router: 0 or 1, which is used by that");
+    range(0, 1, ARGUMENT, (y, router) -> y.find(router), ALL);
+    x.split(0, 2);
+    x.find(1);
+    due("used", x.router(1, 0), 2);
+    due("not the other", x.router(0, 0), 1);
+    x.find(0);
+    due("used", x.router(0, 0), 2);
+    says("Returns how many documents are found.");
+    due("two", x.find(0), 2);
+    x.clear();
+    due("all", x.find(0), 4);
+    filter(x, 7, 3, "_");
+    due("none", x.find(0), 0);
+    due("no documents", new Shardmoor().find(1), 0);
+    due("60", told(60).find(0), 60);
+    says("Throws IllegalArgumentException if router is out of range");
+    range(0, 1, ARGUMENT, (y, router) -> y.find(router), FRESH, RICH);
+    section("Promise 19");
+    says("Returns a document that was found by the latest query.");
+    x = with("{0:1}", "{0:2}", "{0:1}");
+    filter(x, 0, 0, "1");
+    x.find(0);
+    due("found", x.found(1), 2);
+    x.remove(0, 2);
+    due("as it was found", x.found(1), 2);
+    insert(x, 2, "{0:9}");
+    due("as it was found", x.found(1), 2);
+    x.find(0);
+    throwsBy("found by the latest", x, BOUNDS, y -> y.found(1));
+    says("- place: 0 for the lowest one");
+    Shardmoor lowest = new Shardmoor();
+    for (int number : new int[] {99, 50, 0, 7}) {
+      insert(lowest, number, "{}");
     }
-    for (int n : new int[] {-1, 2, 3, FAR[0], FAR[1]}) {
-      refuses("found", BOUNDS, y -> y.found(n));
+    lowest.find(0);
+    says("Returns its number.");
+    int[] numbers = {0, 7, 50, 99};
+    for (int place = 0; place < 4; place++) {
+      due("found", lowest.found(place), numbers[place]);
     }
-    throwsBy("nothing is found yet", with("{}"), BOUNDS, y -> y.found(0));
-  }
-
-  static void duePlan(String what, Shardmoor x, int... answers) {
-    for (int i = 0; i < answers.length; i++) {
-      due(what + ": plan(" + i + ")", x.plan(i), answers[i]);
+    says("- place: 0 for the lowest one");
+    due("the lowest", lowest.found(0), 0);
+    says("Throws IndexOutOfBoundsException if there are not so many");
+    range(0, 3, BOUNDS, (y, place) -> y.found(place), () -> {
+      Shardmoor y = with("{}", "{}", "{}", "{}");
+      y.find(0);
+      return y;
+    });
+    for (int place : new int[] {-1, 0, 1, FAR[0], FAR[1]}) {
+      refuses("none is found yet", BOUNDS, made("{}", "{}"), y -> y.found(place));
     }
+    range(0, 59, BOUNDS, (y, place) -> y.found(place), () -> {
+      Shardmoor y = told(60);
+      y.find(0);
+      return y;
+    });
+    section("Promise 20");
+    says("Returns how many documents the query would find now, looking at all of them, one by one, as if they lay in"
+        + " one row.");
+    x = with("{0:1}", "{0:700}", "{0:1}");
+    due("no filter", x.findAnew(), 3);
+    filter(x, 0, 0, "1");
+    due("without a find", x.findAnew(), 2);
+    x.find(0);
+    x.remove(0, 0);
+    due("now", x.findAnew(), 1);
+    due("what was found stays", x.found(0), 0);
+    insert(x, 9, "{0:1}");
+    insert(x, 8, "{0:1}");
+    update(x, 1, 0, SET, "1");
+    due("now", x.findAnew(), 4);
+    x.clear();
+    due("no filter", x.findAnew(), 4);
+    due("no documents", new Shardmoor().findAnew(), 0);
   }
 
   static void promise21() {
+    section("Promise 21");
+    says("Tells of the latest query: 0 the index by which it looked, -1 for none; 1 at how many documents it looked by"
+        + " that; 2 how many plans were tried; 3 whether a plan was dropped (1 or 0); 4 how many plans are kept now.");
     Shardmoor x = with("{1:1,2:5}", "{1:1,2:6}", "{1:2,2:7}", "{1:3}", "{}");
     duePlan("no query yet", x, -1, 0, 0, 0, 0);
     filter(x, 1, 0, "1");
@@ -835,302 +713,312 @@ public final class PromiseTest {
     x.index(1, true);
     x.find(0);
     duePlan("the plan that is kept", x, -1, 5, 0, 0, 1);
+    x.clear();
+    filter(x, 1, 1, "3");
+    x.find(0);
+    duePlan("by an index", x, 0, 3, 2, 0, 2);
     x.index(2, true);
     x.clear();
-    filter(x, 2, 0, "_");
-    x.find(0);
-    duePlan("a sparse index has no entry for none", x, 1, 0, 2, 0, 2);
-    x.clear();
-    filter(x, 2, 3, "_");
-    x.find(0);
-    duePlan("no index looks by the relation 3", x, -1, 5, 1, 0, 3);
-    x.clear();
-    filter(x, 1, 4, "1");
-    x.find(0);
-    duePlan("nor by 4", x, -1, 5, 1, 0, 4);
-    x.clear();
-    filter(x, 1, 2, "1");
-    filter(x, 1, 1, "9");
-    x.find(0);
-    duePlan("the first filter", x, 0, 2, 2, 0, 5);
-    x.clear();
-    filter(x, 1, 1, "9");
-    filter(x, 1, 2, "1");
-    due("find", x.find(0), 2);
-    duePlan("another order", x, 0, 4, 2, 0, 6);
-    x.clear();
-    filter(x, 1, 3, "_");
+    filter(x, 1, 2, "0");
     filter(x, 2, 2, "5");
-    filter(x, 1, 2, "1");
     x.find(0);
-    duePlan("of several the lowest index", x, 0, 2, 3, 0, 7);
-    x.clear();
-    filter(x, 1, 3, "_");
-    filter(x, 2, 2, "6");
-    filter(x, 1, 2, "1");
-    x.find(0);
-    duePlan("by its paths and relations", x, 0, 2, 0, 0, 7);
-    for (int n : new int[] {-1, 5, FAR[0], FAR[1]}) {
-      refuses("what", ARGUMENT, y -> y.plan(n));
+    duePlan("by the second", x, 1, 2, 3, 0, 3);
+    for (int i = 10; i < 15; i++) {
+      insert(x, i, "{1:5,2:9}");
     }
-  }
-
-  static void plansAreDropped() {
-    Shardmoor x = with("{1:1}", "{1:2}", "{1:2}", "{1:2}", "{1:2}", "{1:3}", "{1:3}", "{1:3}", "{1:3}", "{1:3}");
-    x.index(1, false);
-    filter(x, 1, 0, "1");
     x.find(0);
-    duePlan("kept at 1", x, 0, 1, 2, 0, 1);
-    x.clear();
-    filter(x, 1, 0, "2");
-    x.find(0);
-    duePlan("4 is twice 1, and 2", x, 0, 4, 0, 0, 1);
-    x.clear();
-    filter(x, 1, 0, "3");
-    due("found", x.find(0), 5);
-    duePlan("5 is more", x, 0, 5, 2, 1, 1);
-    x.clear();
-    filter(x, 1, 0, "9");
-    x.find(0);
-    duePlan("now kept at 5", x, 0, 0, 0, 0, 1);
-    x.clear();
-    Shardmoor none = new Shardmoor();
-    none.find(0);
-    duePlan("no documents", none, -1, 0, 1, 0, 1);
-    insert(none, 0, "{}");
-    insert(none, 1, "{}");
-    none.find(0);
-    duePlan("2 documents", none, -1, 2, 0, 0, 1);
-    insert(none, 2, "{}");
-    none.find(0);
-    duePlan("3 documents", none, -1, 3, 1, 1, 1);
-    none.find(0);
-    duePlan("once more", none, -1, 3, 0, 0, 1);
-    Shardmoor empty = new Shardmoor();
-    empty.index(3, true);
-    empty.index(2, true);
-    filter(empty, 2, 0, "1");
-    filter(empty, 3, 0, "1");
-    empty.find(0);
-    duePlan("none last", empty, 0, 0, 3, 0, 1);
-    Shardmoor missing = with("{}", "{1:1}", "{}", "{2:[1,1,[1]]}", "{1:_}");
-    missing.index(1, false);
-    filter(missing, 1, 0, "_");
-    due("only what has nothing is found", missing.find(0), 1);
-    duePlan("those with none are looked at", missing, 0, 4, 2, 0, 1);
-    missing.index(2, true);
-    missing.clear();
-    filter(missing, 2, 2, "0");
-    missing.find(0);
-    duePlan("a document is looked at once", missing, 1, 1, 2, 0, 2);
-  }
-
-  static void dueGroup(Shardmoor x, int place, String value, long times, long sum) {
-    due("value of group " + place, x.grouped(place, 0), printOf(value));
-    due("times of group " + place, x.grouped(place, 1), times);
-    due("sum of group " + place, x.grouped(place, 2), sum);
+    duePlan("dropped", x, 1, 7, 3, 1, 3);
+    due("found", x.found(6), 14);
+    says("- what: 0 to 4");
+    range(0, 4, ARGUMENT, (y, what) -> y.plan(what), ALL);
+    says("Throws IllegalArgumentException if what is out of range");
+    range(0, 4, ARGUMENT, (y, what) -> y.plan(what), FRESH, RICH);
+    x.dropIndex(0);
+    duePlan("the latest query's, and how many are kept now", x, 1, 7, 3, 1, 2);
+    throwsBy("5", x, ARGUMENT, y -> y.plan(5));
   }
 
   static void promises22And23() {
+    section("Promise 22");
+    says("Groups.");
     Shardmoor x = with("{0:1,1:w2,2:[10,20,[5],w7]}", "{0:2,1:[3,3,[3]],2:-4}", "{0:3,1:3}", "{0:4}", "{0:5,1:_}",
         "{0:6,1:{1:1}}", "{0:7,1:{0:9,1:1}}", "{0:8,1:{0:9}}", "{0:9,1:{}}", "{1:w0,0:10}", "{1:-1}", "{1:[]}");
-    throwsBy("no groups yet", x, BOUNDS, y -> y.grouped(0, 0));
     due("nothing is found yet", x.group(1, 0), 0);
     x.find(0);
-    due("groups", x.group(1, 2), 9);
-    dueGroup(x, 0, "_", 1, 0);
-    dueGroup(x, 1, "-1", 1, 0);
-    dueGroup(x, 2, "3", 3, -8);
-    dueGroup(x, 3, "w0", 1, 0);
-    dueGroup(x, 4, "w2", 1, 30);
-    dueGroup(x, 5, "{}", 1, 0);
-    dueGroup(x, 6, "{0:9}", 1, 0);
-    dueGroup(x, 7, "{0:9,1:1}", 1, 0);
-    dueGroup(x, 8, "{1:1}", 1, 0);
-    throwsBy("one more", x, BOUNDS, y -> y.grouped(9, 0));
-    due("by another sum", x.group(1, 0), 9);
-    dueGroup(x, 2, "3", 3, 7);
-    x.remove(0, 4);
-    x.number(100);
-    x.update(0, 2, 0, 0);
-    due("groups stay", x.grouped(0, 0), printOf("_"));
-    due("as they are now", x.group(1, 0), 8);
-    dueGroup(x, 1, "3", 3, 104);
-    insert(x, 4, "{1:5}");
-    insert(x, 50, "{1:5}");
-    due("by their numbers", x.group(1, 0), 9);
-    dueGroup(x, 2, "5", 1, 0);
-    due("groups in objects", x.group(16, 0), 1);
-    dueGroup(x, 0, "9", 2, 15);
-    for (int n : new int[] {-1, 72, FAR[0], FAR[1]}) {
-      refuses("path", ARGUMENT, y -> y.group(n, 0));
-      refuses("sum", ARGUMENT, y -> y.group(0, n));
+    x.group(1, 2);
+    String[] values = {"_", "-1", "3", "w0", "w2", "{}", "{0:9}", "{0:9,1:1}", "{1:1}"};
+    for (int i = 0; i < values.length; i++) {
+      dueGroup(x, i, values[i], i == 2 ? 3 : 1, i == 2 ? -8 : i == 4 ? 30 : 0);
     }
-    for (int n : new int[] {-1, 90, FAR[0], FAR[1]}) {
-      refuses("group", BOUNDS, y -> y.grouped(n, 0));
-      refuses("group and what", BOUNDS, y -> y.grouped(n, 7));
+    says("- path: 0 to 71");
+    range(0, 71, ARGUMENT, (y, path) -> y.group(path, 0), ALL);
+    says("- sum: 0 to 71: the other one");
+    range(0, 71, ARGUMENT, (y, sum) -> y.group(0, sum), ALL);
+    for (int path = 0; path < 72; path++) {
+      String document = path < 8 ? "{" + path + ":7}" : "{" + (path / 8 - 1) + ":{" + path % 8 + ":7}}";
+      Shardmoor y = with(document);
+      y.find(0);
+      due("a group at " + path, y.group(path, path), 1);
+      dueGroup(y, 0, "7", 1, 7);
     }
-    for (int n : new int[] {-1, 3, FAR[0], FAR[1]}) {
-      refuses("what", ARGUMENT, y -> y.grouped(0, n));
-    }
+    says("Returns how many groups there are.");
+    due("nine", x.group(1, 0), 9);
+    due("one of two fields", x.group(16, 0), 1);
+    due("none", x.group(71, 0), 0);
     Shardmoor many = new Shardmoor();
     for (int i = 0; i < 10; i++) {
-      many.object();
-      many.row();
-      for (int j = 0; j < 20; j++) {
-        many.number(200 - 20 * i - j);
-        many.add();
-      }
-      many.give(1);
-      many.insert(0, i);
+      insert(many, i, "{1:" + row(181 - 20 * i, 200 - 20 * i, "") + "}");
     }
     many.find(0);
-    due("groups", many.group(1, 1), 200);
-    due("first", many.grouped(0, 0), printOf("1"));
-    due("last", many.grouped(199, 0), printOf("200"));
-    due("sum", many.grouped(199, 2), 3810);
+    due("200", many.group(1, 1), 200);
+    for (int i = 0; i < 200; i++) {
+      due("in order", many.grouped(i, 0), printOf("" + (i + 1)));
+    }
+    dueGroup(many, 199, "200", 1, 3810);
+    says("Throws IllegalArgumentException if path or sum is out of range");
+    range(0, 71, ARGUMENT, (y, path) -> y.group(path, 71), RICH, FULL);
+    range(0, 71, ARGUMENT, (y, sum) -> y.group(71, sum), RICH, FULL);
+    section("Promise 23");
+    says("Tells of a group by the latest group(): 0 the print of its value, 1 how many times, 2 the sum.");
+    x = with("{1:1,2:10}", "{1:1,2:20}", "{1:2,2:30}", "{1:{3:[w1]},2:-999}");
+    x.find(0);
+    x.group(1, 2);
+    dueGroup(x, 0, "1", 2, 30);
+    dueGroup(x, 1, "2", 1, 30);
+    dueGroup(x, 2, "{3:[w1]}", 1, -999);
+    update(x, 0, 1, SET, "9");
+    x.remove(0, 2);
+    x.find(0);
+    dueGroup(x, 0, "1", 2, 30);
+    dueGroup(x, 1, "2", 1, 30);
+    x.group(1, 1);
+    dueGroup(x, 0, "1", 1, 1);
+    dueGroup(x, 1, "9", 1, 9);
+    says("- place: 0 for the first one");
+    due("the first", x.grouped(0, 0), printOf("1"));
+    Maker four = () -> {
+      Shardmoor y = with("{1:[1,2,3,4]}");
+      y.find(0);
+      y.group(1, 1);
+      return y;
+    };
+    range(0, 3, BOUNDS, (y, place) -> y.grouped(place, 0), four);
+    says("- what: 0 to 2");
+    range(0, 2, ARGUMENT, (y, what) -> y.grouped(3, what), four);
+    says("Throws IndexOutOfBoundsException if there are not so many");
+    range(0, 3, BOUNDS, (y, place) -> y.grouped(place, 3), four);
+    for (int place : new int[] {-1, 0, 1, FAR[0], FAR[1]}) {
+      refuses("no group yet", BOUNDS, FRESH, y -> y.grouped(place, 0));
+      refuses("no groups", BOUNDS, () -> {
+        Shardmoor y = four.make();
+        y.group(2, 1);
+        return y;
+      }, y -> y.grouped(place, 0));
+    }
+    says("Throws IllegalArgumentException if what is out of range");
+    range(0, 2, ARGUMENT, (y, what) -> y.grouped(0, what), four, RICH, FULL);
   }
+
+  // ---- shards
 
   static void promise24() {
+    section("Promise 24");
+    says("Splits a chunk.");
     Shardmoor x = with("{0:0}", "{0:99}", "{0:100}", "{0:333}");
-    due("split", x.split(0, 100), 4);
-    due("first", x.chunk(0, 0), 0);
-    due("its documents", x.chunk(0, 2), 2);
-    due("second", x.chunk(1, 0), 100);
-    due("its documents", x.chunk(1, 2), 2);
-    due("its shard", x.chunk(1, 1), 0);
-    due("the next", x.chunk(2, 0), 334);
-    due("the next one's shard", x.chunk(2, 1), 1);
-    due("a chunk's last key", x.split(3, 999), 5);
-    due("the last chunk", x.chunk(4, 0), 999);
-    due("its shard", x.chunk(4, 1), 2);
-    for (int at : new int[] {99, 100, 334, 999, -1, FAR[0], FAR[1]}) {
-      throwsBy("split at " + at, x, ARGUMENT, y -> y.split(1, at));
+    x.split(0, 100);
+    int[] firsts = {0, 100, 334, 667};
+    int[] shards = {0, 0, 1, 2};
+    int[] documents = {2, 2, 0, 0};
+    for (int chunk = 0; chunk < 4; chunk++) {
+      due("first key", x.chunk(chunk, 0), firsts[chunk]);
+      due("shard", x.chunk(chunk, 1), shards[chunk]);
+      due("documents", x.chunk(chunk, 2), documents[chunk]);
     }
-    throwsBy("one key only", x, ARGUMENT, y -> y.split(4, 999));
-    throwsBy("beyond all keys", x, ARGUMENT, y -> y.split(4, 1000));
-    throwsBy("no chunk", x, BOUNDS, y -> y.split(5, 100));
-    throwsBy("no chunk", x, BOUNDS, y -> y.split(-1, 100));
-    due("split", x.split(0, 1), 6);
-    due("no document moved", x.document(1, 0), 0);
-    for (int i = 0; i < 6; i++) {
-      due("split", x.split(2, 140 - i), 7 + i);
+    due("no document moves", x.document(2, 0), 0);
+    says("- chunk: its place, from 0");
+    range(0, 2, BOUNDS, (y, chunk) -> y.split(chunk, 334 * chunk + 5), FRESH);
+    range(0, 11, BOUNDS, (y, chunk) -> y.split(chunk, 700), FULL);
+    says("- at: a key, where the second part begins");
+    range(1, 333, ARGUMENT, (y, at) -> y.split(0, at), FRESH);
+    range(335, 666, ARGUMENT, (y, at) -> y.split(1, at), FRESH);
+    range(668, 999, ARGUMENT, (y, at) -> y.split(2, at), FRESH);
+    for (int at : new int[] {1, 333, 335, 666, 668, 999}) {
+      Shardmoor y = new Shardmoor();
+      int chunk = at / 334;
+      y.split(chunk, at);
+      due("the second part", y.chunk(chunk + 1, 0), at);
+      due("its shard", y.chunk(chunk + 1, 1), chunk);
     }
-    throwsBy("a 13th", x, STATE, y -> y.split(2, 120));
-    throwsBy("a 13th, no key", x, ARGUMENT, y -> y.split(2, 334));
-    x.find(0);
-    due("version", x.router(0, 0), 10);
-    for (int n : new int[] {-1, 4, FAR[0], FAR[1]}) {
-      refuses("chunk", BOUNDS, y -> y.split(n, -1));
+    says("Returns how many chunks there are then.");
+    Shardmoor y = new Shardmoor();
+    for (int i = 1; i <= 9; i++) {
+      due("chunks", y.split(0, 300 - i), 3 + i);
     }
-    refuses("no key of it", ARGUMENT, y -> y.split(1, 100));
-    refuses("it moves", STATE, y -> y.split(1, 101));
+    says("Throws IndexOutOfBoundsException if there is no such chunk");
+    for (int chunk : new int[] {-1, 3, 12, FAR[0], FAR[1]}) {
+      refuses("chunk " + chunk, BOUNDS, FRESH, z -> z.split(chunk, 5));
+      refuses("chunk " + chunk, BOUNDS, FRESH, z -> z.split(chunk, -1));
+    }
+    refuses("chunk 4 of 4", BOUNDS, z -> z.split(4, 700));
+    says("Throws IllegalArgumentException if at is no key of it, or its first one");
+    for (int at : new int[] {-1, 0, 334, 999, 1000, FAR[0], FAR[1]}) {
+      refuses("at " + at, ARGUMENT, FRESH, z -> z.split(0, at));
+    }
+    for (int at : new int[] {0, 333, 334, 667, 668}) {
+      refuses("at " + at, ARGUMENT, FRESH, z -> z.split(1, at));
+    }
+    for (int at : new int[] {0, 666, 667, 1000, 1001}) {
+      refuses("at " + at, ARGUMENT, FRESH, z -> z.split(2, at));
+    }
+    for (int at : new int[] {8, 9, 10, 334}) {
+      due("at " + at + " of the key 8 alone", answer(full(), z -> z.split(8, at)) == ARGUMENT, true);
+    }
+    says("Throws IllegalStateException if it moves, or there are 12");
+    refuses("it moves", STATE, z -> z.split(1, 101));
+    refuses("it moves", STATE, z -> z.split(1, 333));
+    due("another", rich().split(0, 99), 5);
+    due("another", rich().split(2, 335), 5);
+    refuses("there are 12", STATE, FULL, z -> z.split(11, 668));
+    refuses("there are 12", STATE, FULL, z -> z.split(9, 10));
   }
 
-  static void dueShards(String what, Shardmoor x, int... answers) {
-    for (int i = 0; i < answers.length; i++) {
-      due(what + ": shard(" + i / 3 + ", " + i % 3 + ")", x.shard(i / 3, i % 3), answers[i]);
-    }
-  }
-
-  static void promises25To28() {
-    Shardmoor x = with("{0:0}", "{0:10}", "{0:20}", "{0:30}", "{0:400}");
-    due("move", x.move(0, 2), 4);
+  static void promise25() {
+    section("Promise 25");
+    says("Begins to move a chunk.");
+    Shardmoor x = with("{0:0}", "{0:400}", "{0:1}");
+    x.move(0, 2);
     due("it moves", x.chunk(0, 3), 1);
-    due("another", x.chunk(1, 3), 0);
-    throwsBy("one moves", x, STATE, y -> y.move(1, 2));
-    throwsBy("key", x, STATE, y -> y.key(0, false));
-    throwsBy("not copied", x, STATE, y -> y.handOver());
-    due("copy", x.copy(1), 3);
-    dueShards("one copy", x, 4, 0, 0, 1, 0, 0, 0, 0, 1);
-    x.number(5);
-    x.update(0, 0, 1, 0);
-    due("copied ahead", x.shard(2, 2), 1);
-    x.number(5);
-    x.update(0, 2, 1, 0);
-    due("changed, so copied", x.shard(2, 2), 2);
-    x.number(20);
-    due("not changed", x.update(0, 3, 0, 0) ? 1 : 0, 1);
-    x.number(20);
-    x.update(0, 3, 0, 0);
-    due("copied", x.shard(2, 2), 3);
-    insert(x, 9, "{0:333}");
-    insert(x, 8, "{0:334}");
-    due("come, so copied", x.shard(2, 2), 4);
-    x.remove(0, 0);
-    due("gone there, too", x.shard(2, 2), 3);
-    x.number(500);
-    x.update(0, 2, 0, 0);
-    due("went to another chunk", x.shard(2, 2), 2);
-    x.number(300);
-    x.update(0, 4, 0, 0);
-    due("came from another", x.shard(2, 2), 3);
-    due("copy", x.copy(20), 0);
-    dueShards("all are copied", x, 4, 0, 0, 2, 0, 0, 0, 0, 4);
-    due("where they lie", x.document(1, 0), 0);
-    due("handOver", x.handOver(), 4);
-    dueShards("handed over", x, 0, 4, 0, 2, 0, 0, 4, 0, 0);
-    due("where they lie", x.document(1, 0), 2);
-    due("the chunk's shard", x.chunk(0, 1), 2);
-    due("it does not move", x.chunk(0, 3), 0);
-    throwsBy("none moves", x, STATE, y -> y.handOver());
-    throwsBy("none moves", x, STATE, y -> y.giveUp());
-    throwsBy("none moves", x, STATE, y -> y.copy(1));
-    throwsBy("none moves, too many", x, ARGUMENT, y -> y.copy(21));
-    due("back", x.move(0, 0), 4);
-    due("copy", x.copy(3), 1);
-    due("giveUp", x.giveUp(), 3);
-    dueShards("given up", x, 0, 4, 0, 2, 0, 0, 4, 0, 0);
-    due("all anew", x.move(0, 1), 4);
-    x.copy(20);
-    due("handOver", x.handOver(), 4);
-    dueShards("orphans in two", x, 0, 4, 0, 6, 0, 0, 0, 4, 0);
-    due("an unchanged one", unchangedWhileMoving(), 0);
-    due("an empty chunk", new Shardmoor().move(1, 0), 0);
-    Shardmoor empty = new Shardmoor();
-    empty.move(1, 0);
-    due("an empty chunk is handed over", empty.handOver(), 0);
-    due("its shard", empty.chunk(1, 1), 0);
-    wrongMoves();
-  }
-
-  /** How many copies there are after an update that changes nothing. */
-  private static int unchangedWhileMoving() {
-    Shardmoor x = with("{0:5}");
+    due("its shard", x.chunk(0, 1), 0);
+    dueShards("none is copied", x, 2, 0, 0, 1, 0, 0, 0, 0, 0);
+    says("- chunk: its place");
+    range(0, 2, BOUNDS, (y, chunk) -> y.move(chunk, (chunk + 1) % 3), FRESH);
+    range(0, 11, BOUNDS, (y, chunk) -> y.move(chunk, 1), FULL);
+    says("- shard: another one");
+    range(0, 2, ARGUMENT, (y, shard) -> y.move(1, shard), ALL);
+    for (int chunk = 0; chunk < 3; chunk++) {
+      for (int shard = 0; shard < 3; shard++) {
+        Shardmoor y = new Shardmoor();
+        int place = chunk;
+        int other = shard;
+        Object got = answer(y, z -> z.move(place, other));
+        due("another one", got.equals(0L), chunk != shard);
+        due("moves", y.chunk(chunk, 3), chunk != shard ? 1 : 0);
+      }
+    }
+    says("Returns how many documents have to be copied.");
+    due("none", new Shardmoor().move(0, 1), 0);
+    due("one", with("{0:400}", "{0:1}").move(1, 2), 1);
+    due("60", told(60).move(0, 1), 60);
+    x = with("{}", "{}", "{}");
     x.move(0, 1);
-    x.number(5);
-    x.update(0, 0, 0, 0);
-    return x.shard(1, 2);
-  }
-
-  private static void wrongMoves() {
-    for (int n : new int[] {-1, 4, FAR[0], FAR[1]}) {
-      refuses("chunk", BOUNDS, y -> y.move(n, 9));
+    x.copy(2);
+    x.giveUp();
+    due("all anew", x.move(0, 1), 3);
+    says("Throws IndexOutOfBoundsException if there is no such chunk");
+    for (int chunk : new int[] {-1, 3, 12, FAR[0], FAR[1]}) {
+      refuses("chunk " + chunk, BOUNDS, FRESH, y -> y.move(chunk, 0));
+      refuses("chunk " + chunk, BOUNDS, FRESH, y -> y.move(chunk, 3));
     }
-    for (int n : new int[] {-1, 3, FAR[0], FAR[1]}) {
-      refuses("shard", ARGUMENT, y -> y.move(0, n));
+    refuses("chunk 4 of 4", BOUNDS, y -> y.move(4, 0));
+    says("Throws IllegalArgumentException if there is no such shard");
+    range(0, 2, ARGUMENT, (y, shard) -> y.move(0, shard), FRESH, RICH);
+    says("Throws IllegalStateException if the chunk is of that shard, or one moves");
+    for (int shard = 0; shard < 3; shard++) {
+      int own = shard;
+      refuses("of that shard", STATE, FRESH, y -> y.move(own, own));
+      refuses("one moves", STATE, y -> y.move(0, own));
+      refuses("it moves", STATE, y -> y.move(1, own));
+      refuses("one moves", STATE, y -> y.move(3, own));
     }
-    refuses("one moves", STATE, y -> y.move(2, 0));
-    for (int n : new int[] {-1, 0, 21, FAR[0], FAR[1]}) {
-      refuses("many", ARGUMENT, y -> y.copy(n));
-    }
-    refuses("not copied", STATE, y -> y.handOver());
-    Shardmoor x = new Shardmoor();
-    throwsBy("of that shard", x, STATE, y -> y.move(1, 1));
-    throwsBy("none moves", x, STATE, y -> y.copy(20));
-    throwsBy("none moves", x, STATE, y -> y.handOver());
-    throwsBy("none moves", x, STATE, y -> y.giveUp());
-    x.move(2, 0);
-    due("a chunk ahead is split", x.split(0, 5), 4);
-    due("the one that moves", x.chunk(3, 3), 1);
-    due("and no other", x.chunk(2, 3), 0);
-    due("one behind it is none", x.split(1, 50), 5);
-    throwsBy("the one that moves", x, STATE, y -> y.split(4, 800));
+    x = with("{}");
+    x.move(0, 1);
+    x.copy(1);
     x.handOver();
-    due("its shard", x.chunk(4, 1), 0);
+    throwsBy("of that shard", x, STATE, y -> y.move(0, 1));
+    due("back", x.move(0, 0), 1);
   }
 
-  static void promise29() {
+  static void promises26To28() {
+    section("Promise 26");
+    says("Copies documents of the chunk that moves.");
+    Shardmoor x = with("{}", "{0:400}", "{}", "{}");
+    x.move(0, 1);
+    x.copy(2);
+    dueShards("two copies", x, 3, 0, 0, 1, 0, 2, 0, 0, 0);
+    says("- many: 1 to 20");
+    range(1, 20, ARGUMENT, (y, many) -> y.copy(many), ALL);
+    says("Returns how many are left to be copied.");
+    for (int many = 1; many <= 20; many++) {
+      Shardmoor y = told(21);
+      y.move(0, 2);
+      due("left", y.copy(many), 21 - many);
+      due("copies", y.shard(2, 2), many);
+      due("left", y.copy(20), Math.max(0, 1 - many));
+      due("none is left", y.copy(1), 0);
+      due("copies", y.shard(2, 2), 21);
+    }
+    Shardmoor none = new Shardmoor();
+    none.move(0, 2);
+    due("an empty chunk", none.copy(1), 0);
+    says("Throws IllegalArgumentException if many is out of range");
+    range(1, 20, ARGUMENT, (y, many) -> y.copy(many), FRESH, RICH);
+    says("Throws IllegalStateException if none moves");
+    refuses("none moves", STATE, FRESH, y -> y.copy(1));
+    refuses("none moves", STATE, FULL, y -> y.copy(20));
+    section("Promise 27");
+    says("Hands the chunk that moves over.");
+    x.copy(20);
+    x.handOver();
+    due("its shard", x.chunk(0, 1), 1);
+    due("it moves no more", x.chunk(0, 3), 0);
+    says("Returns how many documents it has, which are orphans in the first shard then.");
+    dueShards("orphans", x, 0, 3, 0, 4, 0, 0, 0, 0, 0);
+    x.move(0, 2);
+    x.copy(20);
+    insert(x, 9, "{}");
+    due("one more has come", x.handOver(), 4);
+    dueShards("orphans", x, 0, 3, 0, 1, 4, 0, 4, 0, 0);
+    due("none", none.handOver(), 0);
+    dueShards("no orphans", none, 0, 0, 0, 0, 0, 0, 0, 0, 0);
+    says("Throws IllegalStateException if none moves, or some are not copied");
+    refuses("none moves", STATE, FRESH, y -> y.handOver());
+    refuses("none moves", STATE, FULL, y -> y.handOver());
+    for (int copied = 0; copied < 3; copied++) {
+      int many = copied;
+      refuses("only " + copied + " are copied", STATE, () -> {
+        Shardmoor y = with("{}", "{}", "{}");
+        y.move(0, 1);
+        if (many > 0) {
+          y.copy(many);
+        }
+        return y;
+      }, y -> y.handOver());
+    }
+    section("Promise 28");
+    says("Gives a move up.");
+    x = rich();
+    due("copies", x.shard(2, 2), 1);
+    x.giveUp();
+    due("it moves no more", x.chunk(1, 3), 0);
+    due("its shard", x.chunk(1, 1), 0);
+    dueShards("no copies", x, 3, 0, 0, 1, 0, 0, 1, 0, 0);
+    says("Returns how many documents were copied.");
+    for (int copied = 0; copied <= 3; copied++) {
+      Shardmoor y = with("{}", "{}", "{}");
+      y.move(0, 1);
+      if (copied > 0) {
+        y.copy(copied);
+      }
+      due("copied", y.giveUp(), copied);
+    }
+    says("Throws IllegalStateException if none moves");
+    refuses("none moves", STATE, FRESH, y -> y.giveUp());
+    refuses("none moves", STATE, FULL, y -> y.giveUp());
+  }
+
+  static void promises29And30() {
+    section("Promise 29");
+    says("Cleans the orphans of a shard.");
     Shardmoor x = with("{0:0}", "{0:1}", "{0:400}");
     x.move(0, 1);
     x.copy(2);
@@ -1138,105 +1026,145 @@ public final class PromiseTest {
     x.move(1, 0);
     x.copy(20);
     x.handOver();
-    due("orphans", x.shard(0, 1), 2);
-    due("orphans", x.shard(1, 1), 1);
-    due("clean", x.clean(2), 0);
-    due("clean", x.clean(0), 2);
-    due("clean", x.clean(0), 0);
-    due("others stay", x.shard(1, 1), 1);
+    dueShards("orphans", x, 1, 2, 0, 2, 1, 0, 0, 0, 0);
+    x.clean(0);
+    dueShards("cleaned", x, 1, 0, 0, 2, 1, 0, 0, 0, 0);
+    says("- shard: 0 to 2");
+    range(0, 2, ARGUMENT, (y, shard) -> y.clean(shard), ALL);
+    says("Returns how many there were.");
+    due("none", x.clean(0), 0);
+    due("none", x.clean(2), 0);
+    due("one", x.clean(1), 1);
+    due("none", x.clean(1), 0);
     due("documents", x.documents(), 3);
-    for (int n : new int[] {-1, 3, FAR[0], FAR[1]}) {
-      refuses("shard", ARGUMENT, y -> y.clean(n));
-    }
-  }
-
-  static void promise30() {
-    Shardmoor x = with("{0:1,1:999}", "{0:999,1:999}", "{0:500,1:w3}", "{1:-5}", "{0:700,1:700}");
+    says("Throws IllegalArgumentException if there is no such shard");
+    range(0, 2, ARGUMENT, (y, shard) -> y.clean(shard), FRESH, FULL);
+    section("Promise 30");
+    says("Shards by another key.");
+    x = with("{0:1,1:999}", "{0:999,1:999}", "{0:500,1:w3}", "{1:-5}", "{0:700,1:700}");
     x.split(0, 5);
     x.move(2, 0);
     x.copy(5);
     x.handOver();
-    due("orphans", x.shard(1, 1), 1);
     due("another key", x.key(1, false), 1);
     due("key", x.document(0, 1), 999);
     due("shard", x.document(0, 0), 2);
     due("a word", x.document(2, 1), 0);
     due("below 0", x.document(3, 1), 0);
     throwsBy("chunks as at first", x, BOUNDS, y -> y.chunk(3, 0));
-    due("chunks as at first", x.chunk(1, 1), 1);
     due("no orphans", x.shard(1, 1), 0);
-    x.find(0);
-    due("version", x.router(0, 0), 4);
-    due("the same key anew", x.key(1, false), 0);
-    x.find(0);
-    due("version", x.router(0, 0), 5);
-    due("hashed", x.key(1, true), hashedMoves());
-    due("key of 999", x.document(0, 1), 7919 * 1999 % 1000);
-    due("key of w3", x.document(2, 1), (104729 * 3 + 500) % 1000);
-    due("key of -5", x.document(3, 1), 7919 * 995 % 1000);
-    x.key(7, true);
-    due("a missing one", x.document(0, 1), 250);
-    x.key(7, false);
-    due("a missing one", x.document(0, 1), 0);
-    for (String value : new String[] {"_", "[1]", "{0:1}"}) {
-      Shardmoor y = with("{7:" + value + "}");
-      y.key(7, true);
-      due("hashed " + value, y.document(0, 1), 250);
-      y.key(7, false);
-      due("not hashed " + value, y.document(0, 1), 0);
-    }
-    for (String[] pair : new String[][] {{"-999", "919"}, {"0", "0"}, {"1", "919"}, {"w0", "500"}, {"w99", "671"}}) {
-      Shardmoor y = with("{7:" + pair[0] + "}");
-      y.key(7, true);
-      due("hashed " + pair[0], y.document(0, 1), Integer.parseInt(pair[1]));
-    }
     due("no entries by that", x.next(5), -1);
-    for (int n : new int[] {-1, 8, FAR[0], FAR[1]}) {
-      refuses("field", ARGUMENT, y -> y.key(n, true));
+    says("- field: 0 to 7");
+    range(0, 7, ARGUMENT, (y, field) -> y.key(field, false), ALL);
+    for (int field = 0; field < 8; field++) {
+      Shardmoor y = with("{" + field + ":888}");
+      y.key(field, false);
+      due("by the field " + field, y.document(0, 1), 888);
+      y.key((field + 1) % 8, false);
+      due("by another", y.document(0, 1), 0);
     }
-    refuses("a chunk moves", STATE, y -> y.key(1, true));
+    says("- isHashed: whether it is hashed");
+    Shardmoor y = with("{7:1}");
+    y.key(7, true);
+    due("hashed", y.document(0, 1), 919);
+    y.key(7, false);
+    due("not hashed", y.document(0, 1), 1);
+    says("Returns how many documents lie in another shard by that.");
+    due("the same", y.key(7, false), 0);
+    due("one", y.key(7, true), 1);
+    due("the same", y.key(7, true), 0);
+    due("no documents", new Shardmoor().key(7, true), 0);
+    due("all of 60", told60ByWord().key(0, true), 60);
+    y = with("{0:0}", "{0:1}", "{0:400}");
+    y.move(0, 1);
+    y.copy(2);
+    y.handOver();
+    due("those of a chunk that has moved", y.key(0, false), 2);
+    says("Throws IllegalArgumentException if field is out of range");
+    range(0, 7, ARGUMENT, (z, field) -> z.key(field, true), FRESH, RICH);
+    says("Throws IllegalStateException if a chunk moves");
+    refuses("a chunk moves", STATE, z -> z.key(0, false));
+    refuses("a chunk moves", STATE, z -> z.key(7, true));
+    refuses("an empty chunk moves", STATE, () -> {
+      Shardmoor z = new Shardmoor();
+      z.move(0, 1);
+      return z;
+    }, z -> z.key(1, false));
   }
 
-  /** By the key 1 the shards are 2 2 0 0 2; hashed 81 81 687 405 300 are the keys. */
-  private static int hashedMoves() {
-    return 5;
-  }
-
-  static void promise31() {
+  /** Documents in the shard 0, of the key 500 when it is hashed. */
+  private static Shardmoor told60ByWord() {
     Shardmoor x = new Shardmoor();
-    due("expire", x.expire(7), -1);
-    due("expire", x.expire(0), 7);
-    due("expire", x.expire(-1), 0);
-    due("expire", x.expire(3), -1);
-    for (int n : new int[] {-2, 8, FAR[0], FAR[1]}) {
-      refuses("field", ARGUMENT, y -> y.expire(n));
+    for (int number = 0; number < 60; number++) {
+      insert(x, number, "{0:w0}");
     }
+    return x;
   }
 
-  static void promise32() {
-    Shardmoor x = with("{5:3}", "{5:2}", "{5:w1}", "{5:[1]}", "{}", "{5:21}", "{5:-999}", "{5:3,0:500}");
-    due("no field", x.tick(1), 0);
+  // ---- time
+
+  static void promises31And32() {
+    section("Promise 31");
+    says("Sets the expiring field.");
+    for (int field = 0; field < 8; field++) {
+      Shardmoor x = with("{" + field + ":1}", "{" + (field + 1) % 8 + ":1}");
+      x.expire(field);
+      due("one goes", x.tick(1), 1);
+      due("the other stays", x.document(1, 2), 2);
+      x.expire(-1);
+      due("none goes", x.tick(1), 0);
+    }
+    says("- field: 0 to 7; -1 for none");
+    range(-1, 7, ARGUMENT, (x, field) -> x.expire(field), ALL);
+    says("Returns the one before.");
+    Shardmoor x = new Shardmoor();
+    int[] fields = {7, 0, -1, 3, 3, -1, -1};
+    for (int i = 0; i < fields.length; i++) {
+      due("the one before", x.expire(fields[i]), i == 0 ? -1 : fields[i - 1]);
+    }
+    says("Throws IllegalArgumentException if field is out of range");
+    range(-1, 7, ARGUMENT, (y, field) -> y.expire(field), RICH);
+    section("Promise 32");
+    says("Lets ticks pass.");
+    x = with("{5:3}", "{5:2}", "{5:w1}", "{5:[1]}", "{}", "{5:21}", "{5:-999}", "{5:3,0:500}");
     x.expire(5);
-    due("documents", x.documents(), 8);
-    due("now 2", x.tick(1), 2);
-    due("the first that went", x.change(9, 1), 1);
-    due("the second that went", x.change(10, 1), 6);
-    due("what", x.change(10, 0), 2);
-    due("now 20", x.tick(18), 2);
-    due("by rising numbers", x.change(11, 1), 0);
-    due("by rising numbers", x.change(12, 1), 7);
-    due("where it lay", x.change(12, 2), 1);
-    due("now", x.now(), 20);
-    due("documents", x.documents(), 4);
-    due("now 21", x.tick(1), 1);
-    due("tick", x.tick(20), 0);
-    due("now", x.now(), 41);
-    Shardmoor order = with("{5:2}", "{5:1}", "{5:2}");
-    order.expire(5);
-    order.tick(20);
-    due("by their ticks", order.change(4, 1), 1);
-    due("by their ticks", order.change(5, 1), 0);
-    due("by their ticks", order.change(6, 1), 2);
+    x.tick(1);
+    due("now", x.now(), 1);
+    x.tick(20);
+    due("now", x.now(), 21);
+    due("documents", x.documents(), 3);
+    says("- ticks: 1 to 20");
+    range(1, 20, ARGUMENT, (y, ticks) -> y.tick(ticks), ALL);
+    for (int ticks = 1; ticks <= 20; ticks++) {
+      Shardmoor y = new Shardmoor();
+      y.tick(ticks);
+      due("now", y.now(), ticks);
+    }
+    says("Returns how many documents went.");
+    x = with("{5:1}", "{5:2}", "{5:2}", "{5:20}", "{5:22}", "{5:_}");
+    due("without an expiring field", x.tick(1), 0);
+    x.expire(5);
+    due("now 2", x.tick(1), 3);
+    due("now 19", x.tick(17), 0);
+    due("now 20", x.tick(1), 1);
+    due("now 21", x.tick(1), 0);
+    due("now 41", x.tick(20), 1);
+    due("now 61", x.tick(20), 0);
+    Shardmoor all = new Shardmoor();
+    for (int number = 0; number < 60; number++) {
+      insert(all, number, "{0:" + (number % 20 + 1) + "}");
+    }
+    all.expire(0);
+    due("all", all.tick(20), 60);
+    for (int i = 0; i < 60; i++) {
+      due("by their ticks, then by rising numbers", all.change(61 + i, 1), i / 3 + i % 3 * 20);
+    }
+    movingExpires();
+    says("Throws IllegalArgumentException if ticks is out of range");
+    range(1, 20, ARGUMENT, (y, ticks) -> y.tick(ticks), RICH, FULL);
+  }
+
+  private static void movingExpires() {
     Shardmoor moving = with("{5:2}", "{5:1}");
     moving.index(5, false);
     moving.expire(5);
@@ -1245,188 +1173,234 @@ public final class PromiseTest {
     due("went", moving.tick(1), 1);
     due("no copy of it", moving.shard(1, 2), 1);
     due("no entries of it", moving.entries(0), 1);
-    moving.copy(1);
     due("handOver", moving.handOver(), 1);
-    for (int n : new int[] {-1, 0, 21, FAR[0], FAR[1]}) {
-      refuses("ticks", ARGUMENT, y -> y.tick(n));
+  }
+
+  // ---- what there is
+
+  static void promises33To35() {
+    section("Promise 33");
+    says("Returns how many documents there are.");
+    Shardmoor x = new Shardmoor();
+    for (int many = 1; many <= 60; many++) {
+      insert(x, 100 - many, "{}");
+      due("documents", x.documents(), many);
+    }
+    for (int many = 59; many >= 0; many--) {
+      x.remove(0, 40 + many);
+      due("documents", x.documents(), many);
+    }
+    section("Promise 34");
+    says("Tells of a document: 0 its shard, 1 its key, 2 its parts; -1 if there is none.");
+    x = with("{0:340,1:[1,{2:_}]}", "{}", "{0:999,1:" + row(1, 21, "") + "}");
+    int[][] told = {{1, 340, 6}, {0, 0, 1}, {2, 999, 24}};
+    for (int number = 0; number < 3; number++) {
+      for (int what = 0; what < 3; what++) {
+        due("document(" + number + ", " + what + ")", x.document(number, what), told[number][what]);
+      }
+    }
+    says("- number: any");
+    for (int number : new int[] {-1, 3, 99, 100, FAR[0], FAR[1]}) {
+      for (int what = 0; what < 3; what++) {
+        due("none", x.document(number, what), -1);
+      }
+    }
+    due("99", told99().document(99, 2), 1);
+    says("- what: 0 to 2");
+    range(0, 2, ARGUMENT, (y, what) -> y.document(3, what), ALL);
+    says("Throws IllegalArgumentException if what is out of range");
+    range(0, 2, ARGUMENT, (y, what) -> y.document(-1, what), ALL);
+    section("Promise 35");
+    says("Returns the print of a document: a long that is told with overflow, 7 at first; each of these makes it 31"
+        + " times itself and a number, together, in order: nothing 1; a number 2 and it; a word 3 and it; a row 4, how"
+        + " many parts it has, and these; an object 5, how many fields it has, and each field, by rising numbers, and"
+        + " its value.");
+    due("{}", with("{}").print(0), (7 * 31 + 5) * 31);
+    due("{0:_}", with("{0:_}").print(0), (((7L * 31 + 5) * 31 + 1) * 31 + 0) * 31 + 1);
+    due("{7:-5}", with("{7:-5}").print(0), ((((7L * 31 + 5) * 31 + 1) * 31 + 7) * 31 + 2) * 31 - 5);
+    due("{1:w9}", with("{1:w9}").print(0), ((((7L * 31 + 5) * 31 + 1) * 31 + 1) * 31 + 3) * 31 + 9);
+    due("{1:[]}", with("{1:[]}").print(0), ((((7L * 31 + 5) * 31 + 1) * 31 + 1) * 31 + 4) * 31);
+    due("with overflow", with("{0:" + row(1, 22, "") + "}").print(0), printOf("{0:" + row(1, 22, "") + "}"));
+    for (String value : new String[] {"[[],[[1]],{}]", "{0:1,7:{3:[w1]}}", "[1,[2,3],4]", "{2:{},4:[]}"}) {
+      due("print of " + value, with("{3:" + value + "}").print(0), printOf("{3:" + value + "}"));
+    }
+    says("- number: that of the document");
+    range(3, 7, BOUNDS, (y, number) -> y.print(number), RICH);
+    range(0, 57, BOUNDS, (y, number) -> y.print(number), FULL);
+    range(98, 99, BOUNDS, (y, number) -> y.print(number), FULL);
+    says("Throws IndexOutOfBoundsException if there is no such document");
+    for (int number : new int[] {-1, 0, 99, 100, FAR[0], FAR[1]}) {
+      refuses("print", BOUNDS, FRESH, y -> y.print(number));
+      refuses("print", BOUNDS, y -> y.print(number));
     }
   }
 
-  static void promises33To35() {
-    Shardmoor x = with("{0:340,1:[1,{2:_}]}", "{}");
-    due("documents", x.documents(), 2);
-    due("shard", x.document(0, 0), 1);
-    due("key", x.document(0, 1), 340);
-    due("parts", x.document(0, 2), 6);
-    due("parts", x.document(1, 2), 1);
-    due("none", x.document(2, 0), -1);
-    for (int n : new int[] {-1, 100, FAR[0], FAR[1]}) {
-      due("none", x.document(n, 2), -1);
-      throwsBy("print", x, BOUNDS, y -> y.print(n));
-      refuses("print", BOUNDS, y -> y.print(n));
-    }
-    for (int n : new int[] {-1, 3, FAR[0], FAR[1]}) {
-      throwsBy("what", x, ARGUMENT, y -> y.document(0, n));
-      throwsBy("what of none", x, ARGUMENT, y -> y.document(-1, n));
-      refuses("what", ARGUMENT, y -> y.document(3, n));
-    }
-    due("print", x.print(1), (7 * 31 + 5) * 31);
-    due("print", x.print(0), printOf("{0:340,1:[1,{2:_}]}"));
-    throwsBy("print", x, BOUNDS, y -> y.print(2));
+  private static Shardmoor told99() {
+    Shardmoor x = new Shardmoor();
+    insert(x, 99, "{}");
+    return x;
   }
 
   static void promises36And37() {
-    String[] rows = {"{}", "{1:_}", "{1:5}", "{1:[]}", "{1:[5,5,6]}", "{1:[[5],[5],5]}", "{1:{0:5}}"};
-    Shardmoor x = with(rows);
+    section("Promise 36");
+    says("Returns how many entries an index has.");
+    String[] documents = {"{}", "{1:_}", "{1:5}", "{1:[]}", "{1:[5,5,6]}", "{1:[[5],[5],5]}", "{1:{0:5}}"};
+    int[] entries = {0, 1, 1, 1, 3, 3, 1};
+    Shardmoor x = new Shardmoor();
     x.index(1, true);
-    due("sparse", x.entries(0), 1 + 1 + 1 + 3 + 3 + 1);
-    due("anew", x.entriesAnew(0), 10);
-    x.dropIndex(0);
-    x.index(1, false);
-    due("not sparse", x.entries(0), 11);
-    due("anew", x.entriesAnew(0), 11);
-    x.remove(0, 4);
-    due("removed", x.entries(0), 8);
-    x.number(5);
-    x.update(0, 3, 1, 3);
-    due("pushed", x.entries(0), 9);
-    insert(x, 4, "{1:[1,2,3]}");
-    due("told", x.entries(0), 13);
-    due("anew", x.entriesAnew(0), 13);
-    x.move(0, 1);
-    x.copy(3);
-    due("copies are not counted", x.entries(0), 13);
-    x.copy(20);
-    x.handOver();
-    due("orphans are not counted", x.entriesAnew(0), 13);
-    due("orphans are not counted", x.entries(0), 13);
-    Shardmoor two = with("{1:[{0:5},{0:5},{1:5},{0:6},{0:[5]}]}", "{1:{0:[5,6,6]}}", "{1:5}", "{}");
-    due("index", two.index(16, false), 0);
-    due("two fields", two.entries(0), 3 + 3 + 1 + 1);
-    due("anew", two.entriesAnew(0), 8);
-    for (int n : new int[] {-1, 2, 3, FAR[0], FAR[1]}) {
-      refuses("entries", BOUNDS, y -> y.entries(n));
-      refuses("entriesAnew", BOUNDS, y -> y.entriesAnew(n));
+    x.index(71, false);
+    int many = 0;
+    due("none", x.entries(0), 0);
+    for (int i = 0; i < documents.length; i++) {
+      insert(x, i, documents[i]);
+      many += entries[i];
+      due("entries", x.entries(0), many);
+      due("of an index that is not sparse", x.entries(1), i + 1);
     }
+    for (int i = 0; i < documents.length; i++) {
+      x.remove(0, i);
+      many -= entries[i];
+      due("entries", x.entries(0), many);
+    }
+    says("Throws IndexOutOfBoundsException if there is no such index");
+    range(0, 2, BOUNDS, (y, index) -> y.entries(index), FULL);
+    range(0, 1, BOUNDS, (y, index) -> y.entries(index), RICH);
+    refuses("no index", BOUNDS, FRESH, y -> y.entries(0));
+    section("Promise 37");
+    says("Returns the same, found by all documents.");
+    for (Maker state : new Maker[] {RICH, FULL}) {
+      for (int index = 0; index < 2; index++) {
+        due("entries", state.make().entriesAnew(index), state.make().entries(index));
+      }
+    }
+    due("entries of all documents", full().entriesAnew(0), 3 + 2 + 2 + 57);
+    says("Throws IndexOutOfBoundsException if there is no such index");
+    range(0, 2, BOUNDS, (y, index) -> y.entriesAnew(index), FULL);
+    range(0, 1, BOUNDS, (y, index) -> y.entriesAnew(index), RICH);
+    refuses("no index", BOUNDS, FRESH, y -> y.entriesAnew(0));
   }
 
   static void promises38And39() {
-    Shardmoor x = with("{0:333}", "{0:334}", "{0:666}", "{0:667}", "{0:999}", "{0:-1}");
-    due("documents of a chunk", x.chunk(0, 2), 2);
-    due("documents of a chunk", x.chunk(1, 2), 2);
-    due("documents of a chunk", x.chunk(2, 2), 2);
-    dueShards("at first", x, 2, 0, 0, 2, 0, 0, 2, 0, 0);
-    x.move(2, 0);
-    x.copy(1);
-    due("moves", x.chunk(2, 3), 1);
-    due("moves not", x.chunk(1, 3), 0);
-    dueShards("a copy", x, 2, 0, 1, 2, 0, 0, 2, 0, 0);
-    for (int n : new int[] {-1, 3, 12, FAR[0], FAR[1]}) {
-      throwsBy("chunk", x, BOUNDS, y -> y.chunk(n, 0));
-      throwsBy("chunk and what", x, BOUNDS, y -> y.chunk(n, 4));
+    section("Promise 38");
+    says("Tells of a chunk: 0 its first key, 1 its shard, 2 how many documents it has, 3 whether it moves (1 or 0).");
+    int[][] chunks = {{0, 0, 1, 0}, {100, 0, 2, 1}, {334, 1, 1, 0}, {667, 2, 1, 0}};
+    for (int chunk = 0; chunk < 4; chunk++) {
+      for (int what = 0; what < 4; what++) {
+        due("chunk(" + chunk + ", " + what + ")", rich().chunk(chunk, what), chunks[chunk][what]);
+      }
     }
-    for (int n : new int[] {-1, 4, FAR[0], FAR[1]}) {
-      refuses("what", ARGUMENT, y -> y.chunk(0, n));
-    }
-    for (int n : new int[] {-1, 3, FAR[0], FAR[1]}) {
-      refuses("shard", ARGUMENT, y -> y.shard(n, 0));
-      refuses("what", ARGUMENT, y -> y.shard(0, n));
-    }
+    due("59 documents", full().chunk(0, 2), 57);
+    says("- what: 0 to 3");
+    range(0, 3, ARGUMENT, (x, what) -> x.chunk(2, what), ALL);
+    says("Throws IndexOutOfBoundsException if there is no such chunk");
+    range(0, 2, BOUNDS, (x, chunk) -> x.chunk(chunk, 0), FRESH);
+    range(0, 3, BOUNDS, (x, chunk) -> x.chunk(chunk, 4), RICH);
+    range(0, 11, BOUNDS, (x, chunk) -> x.chunk(chunk, 3), FULL);
+    says("Throws IllegalArgumentException if what is out of range");
+    range(0, 3, ARGUMENT, (x, what) -> x.chunk(11, what), FULL);
+    section("Promise 39");
+    says("Tells of a shard: 0 how many documents lie there, 1 how many orphans, 2 how many copies of a chunk that"
+        + " moves there.");
+    dueShards("while one moves", rich(), 3, 0, 0, 1, 0, 0, 1, 0, 1);
+    dueShards("when one has moved", full(), 58, 1, 0, 1, 0, 0, 1, 0, 0);
+    says("- shard: 0 to 2");
+    range(0, 2, ARGUMENT, (x, shard) -> x.shard(shard, 2), ALL);
+    says("- what: 0 to 2");
+    range(0, 2, ARGUMENT, (x, what) -> x.shard(2, what), ALL);
+    says("Throws IllegalArgumentException if shard or what is out of range");
+    range(0, 2, ARGUMENT, (x, shard) -> x.shard(shard, 0), RICH);
+    range(0, 2, ARGUMENT, (x, what) -> x.shard(0, what), RICH);
+    throwsBy("both", new Shardmoor(), ARGUMENT, x -> x.shard(3, 3));
   }
 
   static void promise40() {
+    section("Promise 40");
+    says("Tells of a router: 0 its version, 1 how often it was stale.");
     Shardmoor x = new Shardmoor();
-    insert(x, 1, "{}");
-    due("version", x.router(0, 0), 1);
-    due("stale", x.router(0, 1), 0);
+    for (int router = 0; router < 2; router++) {
+      due("version", x.router(router, 0), 1);
+      due("stale", x.router(router, 1), 0);
+    }
     x.split(0, 5);
-    due("not used yet", x.router(0, 0), 1);
-    due("not used yet", x.router(0, 1), 0);
     x.split(0, 3);
     x.find(0);
-    due("version", x.router(0, 0), 3);
-    due("stale", x.router(0, 1), 1);
-    due("the other", x.router(1, 0), 1);
-    due("the other", x.router(1, 1), 0);
-    x.find(0);
-    due("not stale", x.router(0, 1), 1);
-    throwsBy("throws", x, STATE, y -> y.insert(1, 1));
-    throwsBy("throws", x, BOUNDS, y -> y.remove(1, 2));
-    throwsBy("throws", x, STATE, y -> y.update(1, 1, 0, 0) ? 1 : 0);
-    due("a call that throws does not use it", x.router(1, 0), 1);
-    insert(x, 2, "{}");
-    tell(x, "{}");
-    x.insert(1, 3);
-    due("insert uses it", x.router(1, 0), 3);
-    x.key(0, false);
-    x.update(1, 3, 0, 1);
-    due("an update that changes nothing uses it", x.router(1, 0), 4);
-    due("stale", x.router(1, 1), 2);
-    x.split(1, 340);
-    x.number(2);
-    x.update(1, 3, 0, 0);
-    due("an update uses it", x.router(1, 1), 3);
-    x.split(1, 338);
-    x.remove(1, 3);
-    due("remove uses it", x.router(1, 1), 4);
-    x.move(0, 1);
-    x.find(1);
-    due("a move that begins is no new map", x.router(1, 0), 6);
-    x.copy(20);
-    x.giveUp();
-    x.find(1);
-    due("nor one that is given up", x.router(1, 0), 6);
-    for (int n : new int[] {-1, 2, FAR[0], FAR[1]}) {
-      refuses("router", ARGUMENT, y -> y.router(n, 0));
-      refuses("what", ARGUMENT, y -> y.router(0, n));
+    int[][] told = {{3, 1}, {1, 0}};
+    for (int router = 0; router < 2; router++) {
+      for (int what = 0; what < 2; what++) {
+        due("router(" + router + ", " + what + ")", x.router(router, what), told[router][what]);
+      }
     }
+    x.find(0);
+    due("not stale any more", x.router(0, 1), 1);
+    x.split(0, 2);
+    x.find(1);
+    due("version", x.router(1, 0), 4);
+    due("stale", x.router(1, 1), 1);
+    says("- router: 0 or 1");
+    range(0, 1, ARGUMENT, (y, router) -> y.router(router, 1), ALL);
+    says("- what: 0 or 1");
+    range(0, 1, ARGUMENT, (y, what) -> y.router(1, what), ALL);
+    says("Throws IllegalArgumentException if router or what is out of range");
+    range(0, 1, ARGUMENT, (y, router) -> y.router(router, 0), RICH);
+    range(0, 1, ARGUMENT, (y, what) -> y.router(0, what), RICH);
+    throwsBy("both", x, ARGUMENT, y -> y.router(2, 2));
   }
 
   static void promises41And42() {
+    section("Promise 41");
+    says("Returns the next entry of the stream.");
     Shardmoor x = new Shardmoor();
-    for (int token : new int[] {-5, 0, 1, FAR[0], FAR[1]}) {
-      due("next of none", x.next(token), -1);
-    }
     insert(x, 5, "{0:1}");
     insert(x, 6, "{0:400}");
-    x.number(999);
-    x.update(0, 5, 0, 0);
-    x.number(999);
-    x.update(0, 5, 0, 0);
+    update(x, 5, 0, SET, "999");
+    update(x, 5, 0, SET, "999");
     x.remove(0, 6);
-    int[][] entries = {{0, 5, 0}, {0, 6, 1}, {1, 5, 2}, {2, 6, 1}};
-    for (int time = 1; time <= 4; time++) {
-      due("next", x.next(time - 1), time);
-      for (int what = 0; what < 3; what++) {
-        due("change(" + time + ", " + what + ")", x.change(time, what), entries[time - 1][what]);
-      }
+    due("next", x.next(2), 3);
+    says("- token: any");
+    for (int token : new int[] {FAR[0], FAR[0] + 1, -2, -1}) {
+      due("below all", x.next(token), 1);
     }
-    due("next", x.next(FAR[0]), 1);
-    due("next", x.next(-1), 1);
-    due("next", x.next(4), -1);
-    due("next", x.next(FAR[1]), -1);
-    x.move(2, 0);
-    x.copy(1);
-    x.handOver();
-    due("what moves makes no entries", x.next(4), -1);
-    due("where it lay then", x.change(3, 2), 2);
-    for (int n : new int[] {-1, 0, 6, FAR[0], FAR[1]}) {
-      refuses("time", BOUNDS, y -> y.change(n, 0));
-      refuses("time and what", BOUNDS, y -> y.change(n, 3));
+    for (int token : new int[] {4, 5, 1000, FAR[1] - 1, FAR[1]}) {
+      due("above all", x.next(token), -1);
     }
-    for (int n : new int[] {-1, 3, FAR[0], FAR[1]}) {
-      refuses("what", ARGUMENT, y -> y.change(1, n));
+    says("Returns its time, the least above the token; -1 if there is none.");
+    for (int token = 0; token < 4; token++) {
+      due("the least above " + token, x.next(token), token + 1);
     }
+    due("none", x.next(4), -1);
+    for (int token : new int[] {FAR[0], -1, 0, 1, FAR[1]}) {
+      due("no entries", new Shardmoor().next(token), -1);
+    }
+    section("Promise 42");
+    says("Tells of an entry: 0 what: 0 told, 1 changed, 2 removed; 1 the document, 2 the shard.");
+    dueChange("told", x, 1, 0, 5, 0);
+    dueChange("told", x, 2, 0, 6, 1);
+    dueChange("changed", x, 3, 1, 5, 2);
+    dueChange("removed", x, 4, 2, 6, 1);
+    says("- time: its time");
+    range(1, 60, BOUNDS, (y, time) -> y.change(time, 0), FULL);
+    range(1, 5, BOUNDS, (y, time) -> y.change(time, 2), RICH);
+    says("- what: 0 to 2");
+    range(0, 2, ARGUMENT, (y, what) -> y.change(5, what), RICH, FULL);
+    says("Throws IndexOutOfBoundsException if there is no such entry");
+    range(1, 5, BOUNDS, (y, time) -> y.change(time, 3), RICH);
+    for (int time : new int[] {-1, 0, 1, FAR[0], FAR[1]}) {
+      refuses("no entries", BOUNDS, FRESH, y -> y.change(time, 0));
+    }
+    says("Throws IllegalArgumentException if what is out of range");
+    range(0, 2, ARGUMENT, (y, what) -> y.change(1, what), RICH, FULL);
   }
 
   static void promise43() {
+    section("Promise 43");
+    says("Returns now.");
     Shardmoor x = new Shardmoor();
     due("now", x.now(), 0);
     x.tick(1);
     due("now", x.now(), 1);
     x.tick(20);
     due("now", x.now(), 21);
-    throwsBy("ticks", x, ARGUMENT, y -> y.tick(21));
+    answer(x, y -> y.tick(21));
     due("now", x.now(), 21);
   }
 
@@ -1440,28 +1414,24 @@ public final class PromiseTest {
     promise11();
     promise12();
     promise13();
-    promises14And15();
+    promise14();
+    promise15();
     promise16();
     promise17();
     promises18To20();
     promise21();
-    plansAreDropped();
     promises22And23();
     promise24();
-    promises25To28();
-    promise29();
-    promise30();
-    promise31();
-    promise32();
+    promise25();
+    promises26To28();
+    promises29And30();
+    promises31And32();
     promises33To35();
     promises36And37();
     promises38And39();
     promise40();
     promises41And42();
     promise43();
-    System.out.println(wrong == 0 ? checks + " answers are as due" : wrong + " answers are not as due");
-    if (wrong != 0) {
-      System.exit(1);
-    }
+    end();
   }
 }
