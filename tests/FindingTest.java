@@ -256,6 +256,40 @@ public final class FindingTest extends Kit {
     due("by none", x.plan(0), -1);
     dueFind(x, "tried anew", 2, 8, "1 2 1");
     due("by the index", x.plan(0), 0);
+    differentQueries();
+  }
+
+  /** Each other row of paths and relations has a plan of its own: some at a time, as an object has 512 calls only. */
+  private static void differentQueries() {
+    java.util.Random random = new java.util.Random(7);
+    int[] paths = {0, 1, 2, 70, 71};
+    for (int run = 0; run < 60; run++) {
+      java.util.Set<String> known = new java.util.HashSet<>();
+      Shardmoor x = new Shardmoor();
+      for (int i = 0; i < 40; i++) {
+        StringBuilder query = new StringBuilder();
+        for (int j = run % 3; j >= 0; j--) {
+          int path = run < 30 ? random.nextInt(72) : paths[random.nextInt(5)];
+          int relation = random.nextInt(5);
+          query.append(path).append(' ').append(relation).append(' ');
+          filter(x, path, relation, "1");
+        }
+        boolean isNew = known.add(query.toString());
+        x.find(0);
+        due("tried for " + query, x.plan(2), isNew ? 1 : 0);
+        due("kept", x.plan(4), known.size());
+        x.clear();
+      }
+    }
+    for (int path = 0; path < 71; path++) {
+      Shardmoor x = new Shardmoor();
+      int kept = 0;
+      for (int relation = 0; relation <= 9; relation++) {
+        kept++;
+        dueFind(x, "each path and relation", 1, kept, (path + relation / 5) + " " + relation % 5 + " 1");
+        dueFind(x, "again", 0, kept, (path + relation / 5) + " " + relation % 5 + " 1");
+      }
+    }
   }
 
   /** Filters as texts of the path, the relation and the value; how many plans are tried, and kept then. */
@@ -307,6 +341,44 @@ public final class FindingTest extends Kit {
     duePlan("by the second", x, 1, 0, 0, 0);
     dueFind(x, "another query has its own", 2, 2, "1 0 3");
     due("found all the same", x.find(0), 5);
+    severalPlans();
+  }
+
+  /** Of several plans one is dropped: the others know still at how many documents they looked. */
+  private static void severalPlans() {
+    Shardmoor x = with("{}");
+    dueFind(x, "kept at 1", 1, 1);
+    for (int i = 1; i < 5; i++) {
+      insert(x, i, "{}");
+    }
+    dueFind(x, "kept at 5", 1, 2, "7 3 _");
+    insert(x, 5, "{}");
+    dueFind(x, "kept at 6", 1, 3, "6 3 _");
+    dueFind(x, "6 is more than 4", 1, 3);
+    for (int i = 6; i < 12; i++) {
+      insert(x, i, "{}");
+    }
+    dueFind(x, "12 is twice 5 and 2", 0, 3, "7 3 _");
+    insert(x, 12, "{}");
+    dueFind(x, "13 is more", 1, 3, "7 3 _");
+    insert(x, 13, "{}");
+    dueFind(x, "14 is twice 6 and 2", 0, 3, "6 3 _");
+    dueFind(x, "14 is twice 6 and 2", 0, 3);
+    insert(x, 14, "{}");
+    dueFind(x, "15 is more", 1, 3);
+    dueFind(x, "15 is more", 1, 3, "6 3 _");
+    dueFind(x, "15 is not more than 28", 0, 3, "7 3 _");
+    Shardmoor y = with("{1:1}", "{1:1}", "{2:1}");
+    y.index(1, true);
+    dueFind(y, "by the index, kept at 2", 2, 1, "1 0 1");
+    dueFind(y, "by none, kept at 3", 1, 2, "2 0 1");
+    y.dropIndex(0);
+    for (int i = 3; i < 8; i++) {
+      insert(y, i, "{}");
+    }
+    dueFind(y, "8 is twice 3 and 2", 0, 1, "2 0 1");
+    insert(y, 8, "{}");
+    dueFind(y, "9 is more", 1, 1, "2 0 1");
   }
 
   static void triedPlans() {

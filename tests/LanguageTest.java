@@ -8,6 +8,7 @@ import java.util.stream.Collectors;
 /** The rules of ../shared/LANGUAGE.md that can be seen in the text of the class; run where src is. */
 public final class LanguageTest {
   private static final Path SOURCE = Path.of("src/main/java/Shardmoor.java");
+  private static final Path DOCUMENT = Path.of("../shared/DOC.md");
 
   /** What the class could use by the rules only in ways that it has no need of, or not at all. */
   private static final String[] UNUSED = {"->", "::", "\\btry\\b", "\\bcatch\\b", "\\bfinally\\b", "\\bsynchronized\\b",
@@ -50,9 +51,30 @@ public final class LanguageTest {
       }
     }
     methods(code.split("\n"));
+    face(code.replaceAll("\\s+", " "));
     System.out.println(wrong == 0 ? "no rule is broken as far as is seen" : wrong + " rules are broken");
     if (wrong != 0) {
       System.exit(1);
+    }
+  }
+
+  /** Each member that the document names stands as it is there, with its throws clause, and no other is public. */
+  private static void face(String code) throws IOException {
+    if (!Files.isReadable(DOCUMENT)) {
+      return;
+    }
+    List<String> named = all("(?m)^ *(public [^;{]+);$", Files.readString(DOCUMENT));
+    if (named.size() != 43) {
+      complain("the document names " + named.size() + " members, known are 43");
+    }
+    for (String member : named) {
+      if (!code.contains(member + " {")) {
+        complain("not as in the document: " + member);
+      }
+    }
+    int publics = all("\\b(public)\\b", code).size();
+    if (publics != named.size() + 1) {
+      complain("public are " + publics + ", due are " + (named.size() + 1));
     }
   }
 

@@ -197,6 +197,8 @@ public final class ShardsTest extends Kit {
     due("copied ahead", x.shard(2, 2), 2);
     update(x, 9, 1, SET, "1");
     due("not copied ahead", x.shard(2, 2), 3);
+    update(x, 7, 0, SET, "3");
+    due("an update that changes nothing copies nothing", x.shard(2, 2), 3);
     update(x, 30, 1, SET, "1");
     due("of another chunk", x.shard(2, 2), 3);
     insert(x, 31, "{0:333}");
@@ -226,6 +228,19 @@ public final class ShardsTest extends Kit {
     update(x, 2, 0, SET, "9");
     due("come back", x.shard(2, 2), 2);
     due("documents", x.handOver(), 2);
+    for (int number : new int[] {0, 99}) {
+      x = with("{0:1}", "{0:1}");
+      insert(x, 99, "{0:3}");
+      x.move(0, 1);
+      x.copy(3);
+      x.remove(0, number);
+      due("number " + number + " is removed", x.shard(1, 2), 2);
+      insert(x, number, "{0:3}");
+      due("number " + number + " comes again", x.shard(1, 2), 3);
+      update(x, number, 0, SET, "500");
+      due("number " + number + " goes to another chunk", x.shard(1, 2), 2);
+      due("left", x.copy(1), 0);
+    }
     says("when all are copied, it can be handed over");
     refuses("none is copied", STATE, () -> moving(0), y -> y.handOver());
     refuses("one is not copied", STATE, () -> moving(3), y -> y.handOver());
