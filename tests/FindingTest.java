@@ -268,7 +268,7 @@ public final class FindingTest extends Kit {
       Shardmoor x = new Shardmoor();
       for (int i = 0; i < 40; i++) {
         StringBuilder query = new StringBuilder();
-        for (int j = run % 3; j >= 0; j--) {
+        for (int j = random.nextInt(4); j > 0; j--) {
           int path = run < 30 ? random.nextInt(72) : paths[random.nextInt(5)];
           int relation = random.nextInt(5);
           query.append(path).append(' ').append(relation).append(' ');
@@ -281,14 +281,34 @@ public final class FindingTest extends Kit {
         x.clear();
       }
     }
+    differentSeconds();
     for (int path = 0; path < 71; path++) {
       Shardmoor x = new Shardmoor();
-      int kept = 0;
+      int kept = 1;
+      dueFind(x, "no filter", 1, kept);
       for (int relation = 0; relation <= 9; relation++) {
         kept++;
         dueFind(x, "each path and relation", 1, kept, (path + relation / 5) + " " + relation % 5 + " 1");
         dueFind(x, "again", 0, kept, (path + relation / 5) + " " + relation % 5 + " 1");
       }
+    }
+  }
+
+  /**
+   * Queries of two filters, their first ones next to one another: of the 360 pairs of a path and a relation the second ones
+   * lie each possible way apart, so that no two may be taken for the same by a number that is made of both.
+   */
+  private static void differentSeconds() {
+    Shardmoor x = new Shardmoor();
+    int kept = 0;
+    for (int second = 0; second < 19; second++) {
+      kept++;
+      dueFind(x, "two filters", 1, kept, "0 1 1", second / 5 + " " + second % 5 + " 1");
+    }
+    for (int step = 0; step <= 19; step++) {
+      int second = Math.min(19 * step, 359);
+      kept++;
+      dueFind(x, "two filters", 1, kept, "0 0 1", second / 5 + " " + second % 5 + " 1");
     }
   }
 
